@@ -125,6 +125,8 @@ public final class ProofDesk {
     private static final int LIMIT_SORT = 22;
     private static final int BE_POSITIVE = 23;
     private static final int STORE_CONSTRUCTOR = 24;
+    private static final int KEEP = 25;
+    private static final int EQUIP = 26;
 
     private final Ledger ledger;
     private final Names names;
@@ -858,18 +860,16 @@ public final class ProofDesk {
             // The copies of parts come behind what is looked at, so this goes on until all of them are copied.
             for (int n = block; n < top; n += CELLS) {
                 if (hasParts(n)) {
-                    copyPart(n + FIRST);
-                    copyPart(n + SECOND);
+                    int first = copyNode(cells[n + FIRST]);
+                    int second = copyNode(cells[n + SECOND]);
+                    cells[n + FIRST] = first;
+                    cells[n + SECOND] = second;
                 }
                 if (cells[n + TOLD] != NONE) {
-                    copyPart(n + TOLD);
+                    int told = copyNode(cells[n + TOLD]);
+                    cells[n + TOLD] = told;
                 }
             }
-        }
-
-        private void copyPart(int at) {
-            int copy = copyNode(cells[at]);
-            cells[at] = copy;
         }
 
         /** The copies move down to what is kept, and the rest is gone: how far they moved. */
@@ -1347,16 +1347,27 @@ public final class ProofDesk {
         }
     }
 
-    /** Reads one declaration of the text at a time, and finds out what its names mean. */
+    /** Reads one declaration of the text at a time, token by token, and finds out what its names mean. */
     private static final class Parser {
-        // What is to be done next.
+        // What is to be done at the next token.
         private static final int BEGIN_TERM = 0;
         private static final int READ_ATOM = 1;
-        private static final int READ_REC = 2;
-        private static final int ATTACH = 3;
-        private static final int END_TERM = 4;
-        private static final int READY = 5;
-        private static final int FAILED = 6;
+        private static final int GO_ON = 2;
+        private static final int END_TERM = 3;
+        private static final int READ_REC_NAME = 4;
+        private static final int READ_REC_SORT = 5;
+        private static final int READ_BINDERS = 6;
+        private static final int READ_NAME = 7;
+        private static final int READ_MORE_NAMES = 8;
+        private static final int END_GROUP = 9;
+        private static final int READ_LET_NAME = 10;
+        private static final int READ_LET = 11;
+        private static final int READ_OWN_NAME = 12;
+        private static final int READ_OWN_GROUPS = 13;
+        private static final int READ_CONSTRUCTOR_NAME = 14;
+        private static final int READ_COLON = 15;
+        private static final int READY = 16;
+        private static final int FAILED = 17;
         // What an open TERM is part of, as frames say it.
         private static final int IN_ARROW = 0;
         private static final int IN_BRACKETS = 1;
@@ -1387,6 +1398,8 @@ public final class ProofDesk {
         private int depth;
         private int term;
         private int application;
+        private int place;
+        private int subject;
         private int serial;
 
         Parser(Lexer lexer, Shelf shelf, Ledger ledger) {
@@ -1414,18 +1427,26 @@ public final class ProofDesk {
             if (lexer.token == TEXT_END) {
                 return false;
             }
-            readWord();
+            beginDeclaration();
             for (int left = MANY; left > 0 && mode < READY; left--) {
-                switch (mode) {
-                    case BEGIN_TERM: beginTerm(); break;
-                    case READ_ATOM: readAtom(); break;
-                    case READ_REC: readRec(); break;
-                    case ATTACH: attach(); break;
-                    default: endTerm(); break;
+                if (takesToken()) {
+                    lexer.advance();
                 }
             }
             closeScopes();
             return mode == READY;
+        }
+
+        private void beginDeclaration() {
+            int word = lexer.token;
+            if (word == WORD_CHECK || word == WORD_NORM) {
+                enter(IN_QUESTION, NONE, NONE, NONE, NONE);
+            } else {
+                mode = word >= WORD_AXIOM && word <= WORD_DATA ? READ_OWN_NAME : FAILED;
+            }
+            if (mode != FAILED) {
+                lexer.advance();
+            }
         }
 
         private void closeScopes() {
@@ -1439,17 +1460,37 @@ public final class ProofDesk {
             }
         }
 
-        private void fail() {
-            mode = FAILED;
+        /** Does what is to be done: whether that takes the token, so that the next one is to be looked at. */
+        private boolean takesToken() {
+            switch (mode) {
+                case BEGIN_TERM: return beginTerm();
+                case READ_ATOM: return readAtom();
+                case GO_ON: return goOn();
+                case END_TERM: return endTerm();
+                case READ_REC_NAME: return readRecName();
+                case READ_REC_SORT: return readRecSort();
+                case READ_BINDERS: return readBinders();
+                case READ_NAME: return readName();
+                case READ_MORE_NAMES: return readMoreNames();
+                case END_GROUP: return endGroup();
+                case READ_LET_NAME: return readLetName();
+                case READ_LET: return readLet();
+                case READ_OWN_NAME: return readOwnName();
+                case READ_OWN_GROUPS: return readOwnGroups();
+                case READ_CONSTRUCTOR_NAME: return readConstructorName();
+                default: return passes(COLON, BEGIN_TERM);
+            }
         }
 
-        private boolean passes(int token) {
-            if (lexer.token != token) {
-                fail();
-                return false;
-            }
-            lexer.advance();
-            return true;
+        private boolean fails() {
+            mode = FAILED;
+            return false;
+        }
+
+        /** The token must be this one; then that is to be done at the next one. */
+        private boolean passes(int token, int next) {
+            mode = lexer.token == token ? next : FAILED;
+            return mode != FAILED;
         }
 
         /** A TERM begins at the next token; the frame says what it is part of. */
@@ -1467,75 +1508,71 @@ public final class ProofDesk {
             mode = BEGIN_TERM;
         }
 
-        private void enterOwn(int frame) {
+        private boolean entersOwn(int frame) {
             enter(frame, NONE, NONE, NONE, NONE);
+            return true;
         }
 
-        private int frame(int i) {
+        /** Part i of the frame that was left last. */
+        private int left(int i) {
             return frames[FRAME * frameTop + i];
         }
 
-        private void readWord() {
-            int word = lexer.token;
-            if (word == WORD_CHECK || word == WORD_NORM) {
-                lexer.advance();
-                enterOwn(IN_QUESTION);
-            } else if (word >= WORD_AXIOM && word <= WORD_DATA) {
-                lexer.advance();
-                if (declareName()) {
-                    declaration.name = lexer.name;
-                    lexer.advance();
-                    readOwnGroups();
-                }
-            } else {
-                fail();
-            }
-        }
-
-        private boolean declareName() {
+        private boolean declares(int next) {
             if (lexer.token != NAME) {
-                fail();
-                return false;
+                return fails();
             }
             if (names.globalOf(lexer.name) != NONE || names.serialOf(lexer.name) == serial) {
                 ledger.refuse(NAME_TAKEN, lexer.start);
             }
             names.setSerial(lexer.name, serial);
+            mode = next;
             return true;
         }
 
-        private void readOwnGroups() {
-            if (lexer.token == OPENING) {
-                lexer.advance();
-                if (readNames()) {
-                    enterOwn(IN_OWN_GROUP);
-                }
-            } else if (lexer.token == COLON) {
-                lexer.advance();
-                enterOwn(IN_TYPE);
-            } else if (lexer.token == BECOMES && declaration.word == WORD_DEF) {
-                lexer.advance();
-                enterOwn(IN_VALUE);
-            } else {
-                fail();
-            }
+        private boolean readOwnName() {
+            declaration.name = lexer.token == NAME ? lexer.name : NONE;
+            return declares(READ_OWN_GROUPS);
         }
 
-        /** Reads NAMES and the colon behind them. */
-        private boolean readNames() {
-            if (lexer.token != NAME) {
-                fail();
+        private boolean readOwnGroups() {
+            if (lexer.token == OPENING) {
+                enter(IN_OWN_GROUP, NONE, NONE, NONE, waitingCount);
+                mode = READ_NAME;
+                return true;
+            }
+            if (lexer.token == COLON) {
+                return entersOwn(IN_TYPE);
+            }
+            return lexer.token == BECOMES && declaration.word == WORD_DEF ? entersOwn(IN_VALUE) : fails();
+        }
+
+        private boolean readConstructorName() {
+            if (!declares(READ_COLON)) {
                 return false;
             }
-            for (int left = MOST_TEXT; left > 0 && lexer.token == NAME; left--) {
-                if (waitingCount == waiting.length) {
-                    waiting = Arrays.copyOf(waiting, 2 * waiting.length);
-                }
-                waiting[waitingCount] = lexer.name;
-                waitingCount++;
-                lexer.advance();
+            declaration.addConstructor(lexer.name);
+            enter(IN_CONSTRUCTOR, NONE, NONE, NONE, NONE);
+            mode = READ_COLON;
+            return true;
+        }
+
+        private boolean readName() {
+            return lexer.token == NAME ? readMoreNames() : fails();
+        }
+
+        /** Names wait until the type behind the colon is read, since they are not bound in it. */
+        private boolean readMoreNames() {
+            if (lexer.token != NAME) {
+                return passes(COLON, BEGIN_TERM);
             }
-            return passes(COLON);
+            if (waitingCount == waiting.length) {
+                waiting = Arrays.copyOf(waiting, 2 * waiting.length);
+            }
+            waiting[waitingCount] = lexer.name;
+            waitingCount++;
+            mode = READ_MORE_NAMES;
+            return true;
         }
 
         /** The names that wait from first on are bound, all with this type. */
@@ -1561,232 +1598,208 @@ public final class ProofDesk {
             names.setBinder(terms.nameOf(declaration.binder(last)), declaration.shadowed(last));
         }
 
-        private void beginTerm() {
+        private boolean beginTerm() {
             application = NONE;
-            int word = lexer.token;
-            int place = lexer.start;
+            place = lexer.start;
             if (depth > DEEPEST_TERM) {
-                fail();
-            } else if (word == WORD_FUN || word == WORD_ALL) {
-                lexer.advance();
-                readBinders(word == WORD_FUN ? FUN : ALL, place, declaration.boundCount, IN_NAMES);
-            } else if (word == WORD_LET) {
-                lexer.advance();
-                readLet(place);
-            } else {
-                mode = READ_ATOM;
+                return fails();
+            }
+            switch (lexer.token) {
+                case WORD_FUN: subject = FUN; mode = READ_BINDERS; return true;
+                case WORD_ALL: subject = ALL; mode = READ_BINDERS; return true;
+                case WORD_LET: mode = READ_LET_NAME; return true;
+                default: mode = READ_ATOM; return false;
             }
         }
 
-        /** NAMES behind fun or all, if that may be so (frame is IN_NAMES), or a GROUP. */
-        private void readBinders(int kind, int place, int firstBound, int frame) {
-            int firstWaiting = waitingCount;
+        private boolean readBinders() {
             boolean group = lexer.token == OPENING;
-            if (!group && frame != IN_NAMES) {
-                fail();
-                return;
-            }
-            if (group) {
-                lexer.advance();
-            }
-            if (readNames()) {
-                depth++;
-                enter(group ? IN_GROUP : IN_NAMES, kind, place, firstBound, firstWaiting);
-            }
-        }
-
-        private void readLet(int place) {
-            if (lexer.token != NAME) {
-                fail();
-                return;
-            }
-            int name = lexer.name;
-            lexer.advance();
             depth++;
-            if (lexer.token == COLON) {
-                lexer.advance();
-                enter(IN_LET_TYPE, name, place, NONE, NONE);
-            } else if (passes(BECOMES)) {
-                enter(IN_LET_VALUE, name, place, NONE, NONE);
-            }
+            enter(group ? IN_GROUP : IN_NAMES, subject, place, declaration.boundCount, waitingCount);
+            mode = READ_NAME;
+            return group;
         }
 
-        private void readAtom() {
-            int place = lexer.start;
-            mode = ATTACH;
+        private boolean readLetName() {
+            subject = lexer.name;
+            depth++;
+            return passes(NAME, READ_LET);
+        }
+
+        private boolean readLet() {
+            if (lexer.token != COLON && lexer.token != BECOMES) {
+                return fails();
+            }
+            enter(lexer.token == COLON ? IN_LET_TYPE : IN_LET_VALUE, subject, place, NONE, NONE);
+            return true;
+        }
+
+        private boolean readAtom() {
             switch (lexer.token) {
                 case NAME:
-                    term = meant(lexer.name, place);
-                    lexer.advance();
-                    break;
+                    attach(meant(lexer.name));
+                    return true;
                 case SORT_WORD:
-                    term = terms.sort(lexer.level, place);
-                    lexer.advance();
-                    break;
+                    attach(terms.sort(lexer.level, lexer.start));
+                    return true;
                 case OPENING:
-                    lexer.advance();
                     depth++;
-                    enter(IN_BRACKETS, application, place, NONE, NONE);
-                    break;
+                    enter(IN_BRACKETS, application, lexer.start, NONE, NONE);
+                    return true;
                 case WORD_REC:
-                    mode = READ_REC;
-                    break;
+                    place = lexer.start;
+                    mode = READ_REC_NAME;
+                    return true;
                 default:
-                    fail();
-                    break;
+                    return fails();
             }
         }
 
-        private int meant(int name, int place) {
+        private int meant(int name) {
             int binder = names.binderOf(name);
             if (binder != NONE) {
-                return terms.variable(binder, place);
+                return terms.variable(binder, lexer.start);
             }
             int number = names.globalOf(name);
             if (number == NONE) {
-                ledger.refuse(MEANS_NOTHING, place);
+                ledger.refuse(MEANS_NOTHING, lexer.start);
             }
-            return terms.global(number, place);
+            return terms.global(number, lexer.start);
         }
 
-        private void readRec() {
-            int place = lexer.start;
-            lexer.advance();
+        private boolean readRecName() {
             if (lexer.token != NAME) {
-                fail();
-                return;
+                return fails();
             }
-            int family = names.globalOf(lexer.name);
-            if (!shelf.has(family) || shelf.kindOf(family) != FAMILY) {
+            subject = names.globalOf(lexer.name);
+            if (!shelf.has(subject) || shelf.kindOf(subject) != FAMILY) {
                 ledger.refuse(NO_FAMILY, lexer.start);
             }
-            lexer.advance();
-            if (lexer.token != SORT_WORD) {
-                fail();
-                return;
-            }
-            term = terms.rec(family, lexer.level, place);
-            lexer.advance();
-            mode = ATTACH;
+            mode = READ_REC_SORT;
+            return true;
         }
 
-        /** The atom that was read goes to the application at hand; what comes behind tells how that goes on. */
-        private void attach() {
-            application = application == NONE ? term : terms.apply(application, term);
+        private boolean readRecSort() {
+            if (lexer.token != SORT_WORD) {
+                return fails();
+            }
+            attach(terms.rec(subject, lexer.level, place));
+            return true;
+        }
+
+        private void attach(int atom) {
+            application = application == NONE ? atom : terms.apply(application, atom);
+            mode = GO_ON;
+        }
+
+        /** What stands behind an application tells whether it goes on. */
+        private boolean goOn() {
             switch (lexer.token) {
                 case NAME:
                 case SORT_WORD:
                 case OPENING:
                 case WORD_REC:
                     mode = READ_ATOM;
-                    break;
+                    return false;
                 case ARROW:
-                    lexer.advance();
                     enter(IN_ARROW, application, NONE, NONE, NONE);
-                    break;
+                    return true;
                 default:
                     term = application;
                     mode = END_TERM;
-                    break;
+                    return false;
             }
         }
 
-        private void endTerm() {
+        private boolean endTerm() {
             frameTop--;
-            int a = frame(1);
-            int place = frame(2);
-            switch (frame(0)) {
+            switch (left(0)) {
                 case IN_ARROW:
-                    term = terms.bind(ALL, terms.binder(NAMELESS), a, term, terms.place(a));
-                    break;
-                case IN_BRACKETS: closeBrackets(a, place); break;
-                case IN_CAST: closeCast(a, place, frame(3)); break;
-                case IN_NAMES: closeBinders(a, place, frame(3), frame(4)); break;
-                case IN_GROUP: closeGroup(a, place, frame(3), frame(4)); break;
-                case IN_BODY: closeBody(a, place, frame(3)); break;
+                    term = terms.bind(ALL, terms.binder(NAMELESS), left(1), term, terms.place(left(1)));
+                    return false;
+                case IN_BRACKETS:
+                    if (lexer.token == COLON) {
+                        enter(IN_CAST, left(1), left(2), term, NONE);
+                        return true;
+                    }
+                    return closeAtom(term);
+                case IN_CAST: return closeAtom(terms.cast(left(3), term, left(2)));
+                case IN_NAMES: return closeBinders();
+                case IN_GROUP:
+                    frameTop++;
+                    return passes(CLOSING, END_GROUP);
+                case IN_BODY: return closeBody();
                 case IN_LET_TYPE:
-                    if (passes(BECOMES)) {
-                        enter(IN_LET_VALUE, a, place, term, NONE);
-                    }
-                    break;
-                case IN_LET_VALUE: closeLetValue(a, place, frame(3)); break;
-                case IN_LET_BODY: closeLet(place, frame(3)); break;
+                    enter(IN_LET_VALUE, left(1), left(2), term, NONE);
+                    return passes(BECOMES, BEGIN_TERM);
+                case IN_LET_VALUE: return closeLetValue();
+                case IN_LET_BODY: return closeLet();
                 case IN_OWN_GROUP:
-                    if (passes(CLOSING)) {
-                        bindWaiting(0, term);
-                        readOwnGroups();
-                    }
-                    break;
-                default: endOwnTerm(frame(0)); break;
+                    bindWaiting(left(4), term);
+                    return passes(CLOSING, READ_OWN_GROUPS);
+                default: return endOwnTerm(left(0));
             }
         }
 
-        private void closeBrackets(int before, int place) {
-            if (lexer.token == COLON) {
-                lexer.advance();
-                enter(IN_CAST, before, place, term, NONE);
-            } else if (passes(CLOSING)) {
-                closeAtom(before);
+        private boolean closeAtom(int atom) {
+            if (lexer.token != CLOSING) {
+                return fails();
             }
-        }
-
-        private void closeCast(int before, int place, int inner) {
-            if (passes(CLOSING)) {
-                term = terms.cast(inner, term, place);
-                closeAtom(before);
-            }
-        }
-
-        private void closeAtom(int before) {
             depth--;
-            application = before;
-            mode = ATTACH;
+            application = left(1);
+            attach(atom);
+            return true;
         }
 
-        private void closeGroup(int kind, int place, int firstBound, int firstWaiting) {
-            if (!passes(CLOSING)) {
-                return;
+        /** Behind a GROUP of fun or all: another one, or the last part. */
+        private boolean endGroup() {
+            frameTop--;
+            if (lexer.token != OPENING) {
+                return closeBinders();
             }
-            if (lexer.token == OPENING) {
-                depth--;
-                bindWaiting(firstWaiting, term);
-                readBinders(kind, place, firstBound, IN_GROUP);
-            } else {
-                closeBinders(kind, place, firstBound, firstWaiting);
-            }
+            bindWaiting(left(4), term);
+            frameTop++;
+            mode = READ_NAME;
+            return true;
         }
 
-        private void closeBinders(int kind, int place, int firstBound, int firstWaiting) {
-            if (passes(kind == FUN ? DOUBLE_ARROW : COMMA)) {
-                depth--;
-                bindWaiting(firstWaiting, term);
-                enter(IN_BODY, kind, place, firstBound, NONE);
+        private boolean closeBinders() {
+            if (lexer.token != (left(1) == FUN ? DOUBLE_ARROW : COMMA)) {
+                return fails();
             }
+            depth--;
+            bindWaiting(left(4), term);
+            enter(IN_BODY, left(1), left(2), left(3), NONE);
+            return true;
         }
 
-        private void closeBody(int kind, int place, int firstBound) {
-            for (int i = declaration.boundCount - 1; i >= firstBound; i--) {
-                term = terms.bind(kind, declaration.binder(i), declaration.with(i), term, place);
+        private boolean closeBody() {
+            for (int i = declaration.boundCount - 1; i >= left(3); i--) {
+                term = terms.bind(left(1), declaration.binder(i), declaration.with(i), term, left(2));
                 unbindLast();
             }
+            return false;
         }
 
-        private void closeLetValue(int name, int place, int told) {
-            if (passes(WORD_IN)) {
-                depth--;
-                bindName(name, terms.binder(name), term);
-                enter(IN_LET_BODY, NONE, place, told, NONE);
+        private boolean closeLetValue() {
+            if (lexer.token != WORD_IN) {
+                return fails();
             }
+            depth--;
+            bindName(left(1), terms.binder(left(1)), term);
+            enter(IN_LET_BODY, NONE, left(2), left(3), NONE);
+            return true;
         }
 
-        private void closeLet(int place, int told) {
+        private boolean closeLet() {
             int last = declaration.boundCount - 1;
-            term = terms.let(declaration.binder(last), told, declaration.with(last), term, place);
+            term = terms.let(declaration.binder(last), left(3), declaration.with(last), term, left(2));
             unbindLast();
+            return false;
         }
 
         /** Behind a TERM that is in no other one. */
-        private void endOwnTerm(int frame) {
+        private boolean endOwnTerm(int frame) {
             int word = declaration.word;
             if (frame == IN_TYPE || (frame == IN_QUESTION && declaration.value != NONE)) {
                 declaration.told = term;
@@ -1796,31 +1809,25 @@ public final class ProofDesk {
                 declaration.value = term;
             }
             if (word == WORD_DATA && lexer.token == BAR) {
-                readConstructor();
-            } else if (word == WORD_CHECK && lexer.token == COLON && declaration.told == NONE) {
-                lexer.advance();
-                enterOwn(IN_QUESTION);
-            } else if ((word == WORD_DEF || word == WORD_LEMMA) && frame == IN_TYPE) {
-                if (passes(BECOMES)) {
-                    enterOwn(IN_VALUE);
-                }
-            } else {
-                mode = lexer.token == DOT ? READY : FAILED;
+                return beginConstructor();
             }
+            if (word == WORD_CHECK && lexer.token == COLON && declaration.told == NONE) {
+                return entersOwn(IN_QUESTION);
+            }
+            if ((word == WORD_DEF || word == WORD_LEMMA) && frame == IN_TYPE) {
+                return lexer.token == BECOMES ? entersOwn(IN_VALUE) : fails();
+            }
+            // The token behind the end is left alone: it belongs to the next declaration.
+            mode = lexer.token == DOT ? READY : FAILED;
+            return false;
         }
 
-        private void readConstructor() {
+        private boolean beginConstructor() {
             if (names.globalOf(declaration.name) == NONE) {
                 names.setGlobal(declaration.name, shelf.count);
             }
-            lexer.advance();
-            if (declareName()) {
-                declaration.addConstructor(lexer.name);
-                lexer.advance();
-                if (passes(COLON)) {
-                    enterOwn(IN_CONSTRUCTOR);
-                }
-            }
+            mode = READ_CONSTRUCTOR_NAME;
+            return true;
         }
     }
 
@@ -2538,19 +2545,38 @@ public final class ProofDesk {
                 plan();
             }
             for (int left = MANY; left > 0 && ledger.goesOn() && typer.takeTask(); left--) {
-                if (typer.task == NORMALIZE) {
-                    typer.give(reducer.normalForm(typer.subject, NONE, NONE));
-                } else if (typer.task == INSTANTIATE) {
-                    int type = typer.take();
-                    int argument = terms.second(typer.subject);
-                    typer.give(reducer.normalForm(terms.second(type), terms.ref(type), argument));
-                } else if (typer.task < FIRST_OWN_TASK) {
-                    typer.perform();
-                } else {
-                    perform();
+                switch (typer.task) {
+                    case NORMALIZE: typer.give(reducer.normalForm(typer.subject, NONE, NONE)); break;
+                    case INSTANTIATE: instantiate(typer.take(), terms.second(typer.subject)); break;
+                    case PRINT:
+                        if (printer.printLine(typer.take()) == NONE) {
+                            ledger.refuse(PAPER_FULL, declaration.place);
+                        }
+                        break;
+                    case KEEP: keep(); break;
+                    case EQUIP: shelf.equip(family); break;
+                    default:
+                        if (typer.task < FIRST_OWN_TASK) {
+                            typer.perform();
+                        } else {
+                            perform();
+                        }
+                        break;
                 }
             }
             ledger.close();
+        }
+
+        private void instantiate(int type, int argument) {
+            typer.give(reducer.normalForm(terms.second(type), terms.ref(type), argument));
+        }
+
+        private void keep() {
+            if (shelf.hasRoom()) {
+                shelf.keepPending();
+            } else {
+                ledger.refuse(SHELF_FULL, declaration.place);
+            }
         }
 
         private void plan() {
@@ -2613,7 +2639,6 @@ public final class ProofDesk {
                     typer.needFit(type, typer.latest(), declaration.value);
                     break;
                 case STORE: store(subject); break;
-                case PRINT: print(typer.take()); break;
                 case PARAMETER: addParameter(subject); break;
                 case SHAPE: needFamilyShape(); break;
                 case INDEX: addIndex(subject); break;
@@ -2628,22 +2653,7 @@ public final class ProofDesk {
         private void store(int value) {
             int kind = declaration.word == WORD_AXIOM ? AXIOM : declaration.word == WORD_DEF ? DEF : LEMMA;
             shelf.addPending(kind, declaration.name, typer.take(), value);
-            keep();
-        }
-
-        private boolean keep() {
-            if (!shelf.hasRoom()) {
-                ledger.refuse(SHELF_FULL, declaration.place);
-                return false;
-            }
-            shelf.keepPending();
-            return true;
-        }
-
-        private void print(int term) {
-            if (printer.printLine(term) == NONE) {
-                ledger.refuse(PAPER_FULL, declaration.place);
-            }
+            typer.add(KEEP, NONE, NONE);
         }
 
         private void addToTelescope(int binder) {
@@ -2733,9 +2743,8 @@ public final class ProofDesk {
             int constructors = declaration.constructorCount;
             boolean free = familyLevel != PROP || constructors == 0 || (constructors == 1 && onlyProofs);
             shelf.set(family, Shelf.FREE, free ? 1 : 0);
-            if (keep()) {
-                shelf.equip(family);
-            }
+            typer.add(EQUIP, NONE, NONE);
+            typer.add(KEEP, NONE, NONE);
         }
 
         /** Whether a term is the family put to its parameters and as many others as it has indices, it not being in these. */
@@ -2861,7 +2870,12 @@ public final class ProofDesk {
             addTask(WHOLE, root, NONE);
             for (int left = MANY; left > 0 && taskTop > 0 && !full; left--) {
                 taskTop--;
-                print(tasks[TASK * taskTop], tasks[TASK * taskTop + 1], tasks[TASK * taskTop + 2]);
+                int a = tasks[TASK * taskTop + 1];
+                if (tasks[TASK * taskTop] == WHOLE && terms.kind(a) > APPLY) {
+                    printBinder(a);
+                } else {
+                    print(tasks[TASK * taskTop], a, tasks[TASK * taskTop + 2]);
+                }
             }
             put(10);
             if (full) {
@@ -2953,12 +2967,11 @@ public final class ProofDesk {
                     put(' ');
                     writeSort(terms.first(node));
                     break;
-                case APPLY:
+                default:
                     addTask(AS_PART, terms.second(node), NONE);
                     addTask(WRITE_GAP, NONE, NONE);
                     addTask(AS_FIRST, terms.first(node), NONE);
                     break;
-                default: printBinder(node); break;
             }
         }
 
