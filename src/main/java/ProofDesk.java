@@ -642,7 +642,7 @@ public final class ProofDesk {
         private int blockBinders;
         private int[] stack = new int[64];
 
-        /** A node: of a variable and of fun, all and let, ref is the binder; of a global its number; of a sort its level. */
+        /** ref is the binder of a variable, a fun, an all or a let, the number of a global, the level of a sort. */
         private int node(int kind, int ref, int first, int second, int size, int place) {
             if (top + CELLS > cells.length) {
                 cells = Arrays.copyOf(cells, 2 * cells.length);
@@ -1366,8 +1366,9 @@ public final class ProofDesk {
         private static final int READ_OWN_GROUPS = 13;
         private static final int READ_CONSTRUCTOR_NAME = 14;
         private static final int READ_COLON = 15;
-        private static final int READY = 16;
-        private static final int FAILED = 17;
+        private static final int BEGIN_DECLARATION = 16;
+        private static final int READY = 17;
+        private static final int FAILED = 18;
         // What an open TERM is part of, as frames say it.
         private static final int IN_ARROW = 0;
         private static final int IN_BRACKETS = 1;
@@ -1427,7 +1428,7 @@ public final class ProofDesk {
             if (lexer.token == TEXT_END) {
                 return false;
             }
-            beginDeclaration();
+            mode = BEGIN_DECLARATION;
             for (int left = MANY; left > 0 && mode < READY; left--) {
                 if (takesToken()) {
                     lexer.advance();
@@ -1437,16 +1438,13 @@ public final class ProofDesk {
             return mode == READY;
         }
 
-        private void beginDeclaration() {
+        private boolean beginDeclaration() {
             int word = lexer.token;
             if (word == WORD_CHECK || word == WORD_NORM) {
-                enter(IN_QUESTION, NONE, NONE, NONE, NONE);
-            } else {
-                mode = word >= WORD_AXIOM && word <= WORD_DATA ? READ_OWN_NAME : FAILED;
+                return entersOwn(IN_QUESTION);
             }
-            if (mode != FAILED) {
-                lexer.advance();
-            }
+            mode = word >= WORD_AXIOM && word <= WORD_DATA ? READ_OWN_NAME : FAILED;
+            return mode != FAILED;
         }
 
         private void closeScopes() {
@@ -1478,7 +1476,8 @@ public final class ProofDesk {
                 case READ_OWN_NAME: return readOwnName();
                 case READ_OWN_GROUPS: return readOwnGroups();
                 case READ_CONSTRUCTOR_NAME: return readConstructorName();
-                default: return passes(COLON, BEGIN_TERM);
+                case READ_COLON: return passes(COLON, BEGIN_TERM);
+                default: return beginDeclaration();
             }
         }
 
@@ -1850,8 +1849,8 @@ public final class ProofDesk {
         private final Terms terms;
         private final Shelf shelf;
         private final Ledger ledger;
-        // Cells: a scope is binder, thunk, scope; a list is thunk, list; a thunk is term, scope, or NONE, head, scope, list
-        // when its head is reduced. Scopes and lists go on in older cells only, so they have an end.
+        // A scope is binder, thunk, scope; a list is thunk, list; a thunk is term, scope, or, when its head is reduced,
+        // NONE, head, scope, list. Scopes and lists go on in older cells only, so they have an end.
         private int[] heap = new int[1024];
         private int heapTop;
         private int[] tasks = new int[TASK * 32];
@@ -2084,12 +2083,12 @@ public final class ProofDesk {
             frameTop--;
             int at = FRAME * frameTop;
             int constructor = terms.ref(term);
+            int family = terms.ref(frames[at]);
             int calls = shelf.get(constructor, Shelf.CALL_COUNT);
-            int count = shelf.get(constructor, Shelf.PARTS);
             // The contraction itself, and the applications of what comes to the arguments and the calls.
-            ledger.charge(1 + count + calls);
+            ledger.charge(1 + shelf.get(constructor, Shelf.PARTS) + calls);
             int inner = scopeOfRec(frames[at], frames[at + 1]);
-            int chosen = lookUp(shelf.get(terms.ref(frames[at]), Shelf.HEAD) + 1 + constructor - terms.ref(frames[at]), inner);
+            int chosen = lookUp(shelf.get(family, Shelf.HEAD) + 1 + constructor - family, inner);
             inner = listParts(constructor, inner);
             int list = heap[frames[at + 2] + 1];
             for (int i = calls - 1; i >= 0; i--) {
@@ -2103,7 +2102,7 @@ public final class ProofDesk {
             mode = REDUCE;
         }
 
-        /** The scope in which the calls of a rec stand: itself, its parameters, its motive and its parts for constructors. */
+        /** The scope in which the calls of a rec stand: it, its parameters, its motive and its parts for constructors. */
         private int scopeOfRec(int rec, int list) {
             int family = terms.ref(rec);
             int head = shelf.get(family, Shelf.HEAD);
@@ -2302,7 +2301,6 @@ public final class ProofDesk {
 
         void perform() {
             switch (task) {
-                case INFER: infer(subject); break;
                 case TAKE_SORT: takeSort(); break;
                 case TAKE_TWIN_SORT: terms.setLevel(subject, terms.levelOf(terms.twinOf(subject))); break;
                 case ENTER: terms.setType(subject, take()); break;
@@ -2329,7 +2327,7 @@ public final class ProofDesk {
             }
         }
 
-        private void infer(int term) {
+        void infer(int term) {
             switch (terms.kind(term)) {
                 case VARIABLE: giveCharged(terms.typeOf(terms.ref(term))); break;
                 case GLOBAL: giveCharged(shelf.typeOf(terms.ref(term))); break;
@@ -2546,6 +2544,7 @@ public final class ProofDesk {
             }
             for (int left = MANY; left > 0 && ledger.goesOn() && typer.takeTask(); left--) {
                 switch (typer.task) {
+                    case INFER: typer.infer(typer.subject); break;
                     case NORMALIZE: typer.give(reducer.normalForm(typer.subject, NONE, NONE)); break;
                     case INSTANTIATE: instantiate(typer.take(), terms.second(typer.subject)); break;
                     case PRINT:
@@ -2747,7 +2746,7 @@ public final class ProofDesk {
             typer.add(KEEP, NONE, NONE);
         }
 
-        /** Whether a term is the family put to its parameters and as many others as it has indices, it not being in these. */
+        /** Whether a term is the family put to its parameters and to as many others as it has indices. */
         private boolean isFamilyApplied(int term, boolean notInside) {
             int parameters = shelf.get(family, Shelf.PARAMETERS);
             int head = term;
@@ -2895,7 +2894,7 @@ public final class ProofDesk {
             taskTop++;
         }
 
-        /** Finds for each fun and all, in the order in which they are printed, whether its variable is in its last part. */
+        /** Finds for each fun and all, in the order of printing, whether its variable is in its last part. */
         private void survey(int root) {
             if (scopes.length < terms.binders) {
                 scopes = new int[2 * terms.binders];
