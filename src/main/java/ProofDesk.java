@@ -186,7 +186,7 @@ public final class ProofDesk {
             ledger.addUnreadable(lexer.start);
             shelf.dropPending();
         }
-        return ledger.count;
+        return ledger.verdicts.count;
     }
 
     public int fuel(int n) {
@@ -248,11 +248,60 @@ public final class ProofDesk {
         return shelf.cutTo(g);
     }
 
+    /** Rows of so many numbers each, one upon the other; it grows as it needs to. */
+    private static final class Pile {
+        private final int width;
+        private int[] cells;
+        private int count;
+
+        Pile(int width) {
+            this.width = width;
+            cells = new int[16 * width];
+        }
+
+        void add(int a) {
+            int at = count * width;
+            if (at == cells.length) {
+                cells = Arrays.copyOf(cells, 2 * cells.length);
+            }
+            cells[at] = a;
+            count++;
+        }
+
+        void add(int a, int b, int c) {
+            int at = count * width;
+            if (at == cells.length) {
+                cells = Arrays.copyOf(cells, 2 * cells.length);
+            }
+            cells[at] = a;
+            cells[at + 1] = b;
+            cells[at + 2] = c;
+            count++;
+        }
+
+        int get(int row, int i) {
+            return cells[row * width + i];
+        }
+
+        void set(int row, int i, int value) {
+            cells[row * width + i] = value;
+        }
+
+        /** Takes the top row away: its first number. The others can be read until a row is added. */
+        int take() {
+            count--;
+            return cells[count * width];
+        }
+
+        int top() {
+            return cells[(count - 1) * width];
+        }
+    }
+
     /** The verdicts of a text, and the cost and the outcome of the declaration that is being checked. */
     private static final class Ledger {
-        private static final int ROW = 4;
-        private int[] rows = new int[ROW * 16];
-        private int count;
+        private static final int WIDTH = 4;
+        private final Pile verdicts = new Pile(WIDTH);
         private int fuel = 5000;
         private int cost;
         private int outcome;
@@ -260,7 +309,7 @@ public final class ProofDesk {
         private int place;
 
         void clear() {
-            count = 0;
+            verdicts.count = 0;
         }
 
         void open() {
@@ -290,15 +339,8 @@ public final class ProofDesk {
         }
 
         void close() {
-            if (ROW * (count + 1) > rows.length) {
-                rows = Arrays.copyOf(rows, 2 * rows.length);
-            }
-            int at = ROW * count;
-            rows[at] = outcome;
-            rows[at + 1] = reason;
-            rows[at + 2] = place;
-            rows[at + 3] = outcome == ACCEPTED ? cost : 0;
-            count++;
+            verdicts.add(outcome, reason, place);
+            verdicts.set(verdicts.count - 1, WIDTH - 1, outcome == ACCEPTED ? cost : 0);
         }
 
         void addUnreadable(int where) {
@@ -309,7 +351,7 @@ public final class ProofDesk {
         }
 
         int tell(int k, int what) {
-            return k < 0 || k >= count || what < 0 || what >= ROW ? NONE : rows[ROW * k + what];
+            return k < 0 || k >= verdicts.count || what < 0 || what >= WIDTH ? NONE : verdicts.get(k, what);
         }
     }
 
@@ -640,7 +682,7 @@ public final class ProofDesk {
         private int keptBinders;
         private int block;
         private int blockBinders;
-        private int[] stack = new int[64];
+        private final Pile stack = new Pile(1);
 
         /** ref is the binder of a variable, a fun, an all or a let, the number of a global, the level of a sort. */
         private int node(int kind, int ref, int first, int second, int size, int place) {
@@ -784,21 +826,16 @@ public final class ProofDesk {
         }
 
         boolean mentions(int root, int global) {
-            int height = 1;
-            stack[0] = root;
-            for (int left = MANY; left > 0 && height > 0; left--) {
-                height--;
-                int n = stack[height];
+            stack.count = 0;
+            stack.add(root);
+            for (int left = MANY; left > 0 && stack.count > 0; left--) {
+                int n = stack.take();
                 if (cells[n + KIND] == GLOBAL && cells[n + REF] == global) {
                     return true;
                 }
                 if (hasParts(n)) {
-                    if (height + 2 > stack.length) {
-                        stack = Arrays.copyOf(stack, 2 * stack.length);
-                    }
-                    stack[height] = cells[n + SECOND];
-                    stack[height + 1] = cells[n + FIRST];
-                    height += 2;
+                    stack.add(cells[n + SECOND]);
+                    stack.add(cells[n + FIRST]);
                 }
             }
             return false;
@@ -925,14 +962,11 @@ public final class ProofDesk {
         private int count;
         private int pending;
         private int keptNames;
-        private int[] calls = new int[16];
-        private int callCount;
+        private final Pile calls = new Pile(1);
         private boolean[] reached = new boolean[16];
         private boolean[] searched = new boolean[16];
-        private int[] open = new int[16];
-        private int openCount;
-        private int[] list = new int[32];
-        private int listed;
+        private final Pile open = new Pile(1);
+        private final Pile list = new Pile(1);
 
         Shelf(Names names, Terms terms) {
             this.names = names;
@@ -1036,7 +1070,7 @@ public final class ProofDesk {
                 set(g, STOP, terms.top);
                 set(g, BINDER_MARK, binderMark);
                 set(g, NAME_MARK, keptNames);
-                set(g, CALL_MARK, callCount);
+                set(g, CALL_MARK, calls.count);
                 names.setGlobal(nameOf(g), g);
             }
             terms.keepAll();
@@ -1057,7 +1091,7 @@ public final class ProofDesk {
                 for (int i = g; i < count; i++) {
                     names.setGlobal(nameOf(i), NONE);
                 }
-                callCount = get(g, CALL_MARK);
+                calls.count = get(g, CALL_MARK);
                 terms.cutTo(get(g, START), get(g, BINDER_MARK));
                 keptNames = get(g, NAME_MARK);
                 count = g;
@@ -1066,32 +1100,24 @@ public final class ProofDesk {
             return went;
         }
 
-        void addCall(int call) {
-            if (callCount == calls.length) {
-                calls = Arrays.copyOf(calls, 2 * calls.length);
-            }
-            calls[callCount] = call;
-            callCount++;
-        }
-
         int call(int constructor, int i) {
-            return calls[get(constructor, CALLS) + i];
+            return calls.get(get(constructor, CALLS) + i, 0);
         }
 
         boolean reaches(int g, int h) {
             if (reached.length < count) {
                 reached = new boolean[rows.length / ROW];
                 searched = new boolean[reached.length];
-                open = new int[reached.length];
             }
             for (int i = 0; i < count; i++) {
                 reached[i] = false;
                 searched[i] = false;
             }
-            openCount = 0;
+            open.count = 0;
             reachFrom(g);
-            for (int i = 0; i < openCount && !reached[h]; i++) {
-                reachFrom(open[i]);
+            // What is reached is added behind, each global once.
+            for (int i = 0; i < open.count && !reached[h]; i++) {
+                reachFrom(open.get(i, 0));
             }
             return reached[h];
         }
@@ -1108,8 +1134,7 @@ public final class ProofDesk {
                 int other = terms.ref(n);
                 if ((kind == GLOBAL || kind == REC) && !reached[other]) {
                     reached[other] = true;
-                    open[openCount] = other;
-                    openCount++;
+                    open.add(other);
                 }
             }
         }
@@ -1157,19 +1182,11 @@ public final class ProofDesk {
             return type;
         }
 
-        private void list(int node) {
-            if (listed == list.length) {
-                list = Arrays.copyOf(list, 2 * list.length);
-            }
-            list[listed] = node;
-            listed++;
-        }
-
         /** Lists so many fun or all of a chain: what stands behind them. */
         private int listChain(int chain, int length) {
             int node = chain;
             for (int i = length; i > 0; i--) {
-                list(node);
+                list.add(node);
                 node = terms.second(node);
             }
             return node;
@@ -1178,9 +1195,9 @@ public final class ProofDesk {
         /** The body behind the binders that were listed from mark on, which are listed no more. */
         private int wrapListed(int kind, int mark, int body) {
             int term = body;
-            while (listed > mark) {
-                listed--;
-                term = terms.bind(kind, terms.ref(list[listed]), terms.first(list[listed]), term, 0);
+            while (list.count > mark) {
+                int binding = list.take();
+                term = terms.bind(kind, terms.ref(binding), terms.first(binding), term, 0);
             }
             return term;
         }
@@ -1197,16 +1214,15 @@ public final class ProofDesk {
 
         /** The function put to the last so many arguments of another application. */
         private int applyToLast(int function, int other, int length) {
-            int mark = listed;
+            int mark = list.count;
             int node = other;
             for (int i = length; i > 0; i--) {
-                list(terms.second(node));
+                list.add(terms.second(node));
                 node = terms.first(node);
             }
             int term = function;
-            while (listed > mark) {
-                listed--;
-                term = terms.apply(term, list[listed]);
+            while (list.count > mark) {
+                term = terms.apply(term, list.take());
             }
             return term;
         }
@@ -1214,13 +1230,13 @@ public final class ProofDesk {
         /** What the part of a rec for this constructor must have as its type. */
         private int caseType(int constructor, int motive) {
             int family = get(constructor, KIN);
-            int mark = listed;
+            int mark = list.count;
             int made = listChain(behindParameters(constructor), get(constructor, PARTS));
             int end = applyToLast(terms.variable(motive, 0), made, get(family, PARTS));
             int whole = applyToBinders(terms.global(constructor, 0), typeOf(constructor), wholeLength(constructor));
             end = terms.apply(end, whole);
-            for (int i = listed - 1; i >= mark; i--) {
-                int argument = list[i];
+            for (int i = list.count - 1; i >= mark; i--) {
+                int argument = list.get(i, 0);
                 if (isRecursive(argument, family)) {
                     int premise = callFor(terms.variable(motive, 0), argument, family, ALL);
                     end = terms.bind(ALL, terms.binder(NAMELESS), premise, end, 0);
@@ -1242,7 +1258,7 @@ public final class ProofDesk {
 
         /** For an argument A of type all ys , D Ps Js: the head put to Js and (A ys), behind fun ys or all ys. */
         private int callFor(int head, int argument, int family, int kind) {
-            int mark = listed;
+            int mark = list.count;
             int type = terms.first(argument);
             int length = 0;
             int made = type;
@@ -1259,14 +1275,14 @@ public final class ProofDesk {
         private void addCalls(int constructor, int head) {
             int family = get(constructor, KIN);
             int argument = behindParameters(constructor);
-            set(constructor, CALLS, callCount);
+            set(constructor, CALLS, calls.count);
             for (int i = get(constructor, PARTS); i > 0; i--) {
                 if (isRecursive(argument, family)) {
-                    addCall(callFor(head, argument, family, FUN));
+                    calls.add(callFor(head, argument, family, FUN));
                 }
                 argument = terms.second(argument);
             }
-            set(constructor, CALL_COUNT, callCount - get(constructor, CALLS));
+            set(constructor, CALL_COUNT, calls.count - get(constructor, CALLS));
         }
 
         /** The type of rec of a family into a sort. */
@@ -1276,74 +1292,6 @@ public final class ProofDesk {
             motive = wrapListed(ALL, get(family, PARAMETERS), motive);
             int type = terms.bind(ALL, get(family, HEAD) + 1, motive, get(family, CASES), 0);
             return wrapListed(ALL, 0, type);
-        }
-    }
-
-    /** A declaration as it was read, its names already meaning variables and globals. */
-    private static final class Declaration {
-        private static final int BOUND = 3;
-        private int word;
-        private int place;
-        private int name;
-        private int told;
-        private int value;
-        private int[] bound = new int[BOUND * 16];
-        private int boundCount;
-        private int[] constructors = new int[16];
-        private int constructorCount;
-
-        void open(int word, int place) {
-            this.word = word;
-            this.place = place;
-            name = NONE;
-            told = NONE;
-            value = NONE;
-            boundCount = 0;
-            constructorCount = 0;
-        }
-
-        /** A variable comes into scope; with is its type, or the value that a let gives it. */
-        void addBound(int binder, int with, int shadowed) {
-            if (BOUND * (boundCount + 1) > bound.length) {
-                bound = Arrays.copyOf(bound, 2 * bound.length);
-            }
-            bound[BOUND * boundCount] = binder;
-            bound[BOUND * boundCount + 1] = with;
-            bound[BOUND * boundCount + 2] = shadowed;
-            boundCount++;
-        }
-
-        int binder(int i) {
-            return bound[BOUND * i];
-        }
-
-        int with(int i) {
-            return bound[BOUND * i + 1];
-        }
-
-        int shadowed(int i) {
-            return bound[BOUND * i + 2];
-        }
-
-        void addConstructor(int itsName) {
-            if (2 * constructorCount == constructors.length) {
-                constructors = Arrays.copyOf(constructors, 2 * constructors.length);
-            }
-            constructors[2 * constructorCount] = itsName;
-            constructors[2 * constructorCount + 1] = NONE;
-            constructorCount++;
-        }
-
-        void setConstructorTerm(int term) {
-            constructors[2 * constructorCount - 1] = term;
-        }
-
-        int constructorName(int i) {
-            return constructors[2 * i];
-        }
-
-        int constructorTerm(int i) {
-            return constructors[2 * i + 1];
         }
     }
 
@@ -1390,11 +1338,8 @@ public final class ProofDesk {
         private final Terms terms;
         private final Shelf shelf;
         private final Ledger ledger;
-        private final Declaration declaration = new Declaration();
-        private int[] frames = new int[FRAME * 32];
-        private int frameTop;
-        private int[] waiting = new int[16];
-        private int waitingCount;
+        private final Pile frames = new Pile(FRAME);
+        private final Pile waiting = new Pile(1);
         private int mode;
         private int depth;
         private int term;
@@ -1402,6 +1347,15 @@ public final class ProofDesk {
         private int place;
         private int subject;
         private int serial;
+        // The declaration: its word and where that stands, its name, its groups as binder, type and what the name of the
+        // binder meant before, its TERMs, and the names and TERMs of its constructors.
+        private int word;
+        private int start;
+        private int name;
+        private final Pile bound = new Pile(3);
+        private int told;
+        private int value;
+        private final Pile constructors = new Pile(3);
 
         Parser(Lexer lexer, Shelf shelf, Ledger ledger) {
             this.lexer = lexer;
@@ -1418,14 +1372,20 @@ public final class ProofDesk {
         /** Whether a declaration was read as a whole; the ledger is open for it then, with what its names met. */
         boolean readDeclaration() {
             ledger.open();
-            frameTop = 0;
-            waitingCount = 0;
+            frames.count = 0;
+            waiting.count = 0;
+            bound.count = 0;
+            constructors.count = 0;
             depth = 1;
             serial++;
             mode = READY;
             lexer.advance();
-            declaration.open(lexer.token, lexer.start);
-            if (lexer.token == TEXT_END) {
+            word = lexer.token;
+            start = lexer.start;
+            name = NONE;
+            told = NONE;
+            value = NONE;
+            if (word == TEXT_END) {
                 return false;
             }
             mode = BEGIN_DECLARATION;
@@ -1439,7 +1399,6 @@ public final class ProofDesk {
         }
 
         private boolean beginDeclaration() {
-            int word = lexer.token;
             if (word == WORD_CHECK || word == WORD_NORM) {
                 return entersOwn(IN_QUESTION);
             }
@@ -1449,12 +1408,11 @@ public final class ProofDesk {
 
         private void closeScopes() {
             // The groups stay in the declaration; only what the names mean goes.
-            for (int i = declaration.boundCount - 1; i >= 0; i--) {
-                names.setBinder(terms.nameOf(declaration.binder(i)), declaration.shadowed(i));
+            for (int i = bound.count - 1; i >= 0; i--) {
+                names.setBinder(terms.nameOf(bound.get(i, 0)), bound.get(i, 2));
             }
-            if (declaration.word == WORD_DATA && declaration.name != NONE
-                    && names.globalOf(declaration.name) == shelf.count) {
-                names.setGlobal(declaration.name, NONE);
+            if (name != NONE && names.globalOf(name) == shelf.count) {
+                names.setGlobal(name, NONE);
             }
         }
 
@@ -1494,16 +1452,9 @@ public final class ProofDesk {
 
         /** A TERM begins at the next token; the frame says what it is part of. */
         private void enter(int frame, int a, int b, int c, int d) {
-            if (FRAME * (frameTop + 1) > frames.length) {
-                frames = Arrays.copyOf(frames, 2 * frames.length);
-            }
-            int at = FRAME * frameTop;
-            frames[at] = frame;
-            frames[at + 1] = a;
-            frames[at + 2] = b;
-            frames[at + 3] = c;
-            frames[at + 4] = d;
-            frameTop++;
+            frames.add(frame, a, b);
+            frames.set(frames.count - 1, 3, c);
+            frames.set(frames.count - 1, 4, d);
             mode = BEGIN_TERM;
         }
 
@@ -1514,7 +1465,7 @@ public final class ProofDesk {
 
         /** Part i of the frame that was left last. */
         private int left(int i) {
-            return frames[FRAME * frameTop + i];
+            return frames.get(frames.count, i);
         }
 
         private boolean declares(int next) {
@@ -1530,27 +1481,27 @@ public final class ProofDesk {
         }
 
         private boolean readOwnName() {
-            declaration.name = lexer.token == NAME ? lexer.name : NONE;
+            name = lexer.token == NAME ? lexer.name : NONE;
             return declares(READ_OWN_GROUPS);
         }
 
         private boolean readOwnGroups() {
             if (lexer.token == OPENING) {
-                enter(IN_OWN_GROUP, NONE, NONE, NONE, waitingCount);
+                enter(IN_OWN_GROUP, NONE, NONE, NONE, waiting.count);
                 mode = READ_NAME;
                 return true;
             }
             if (lexer.token == COLON) {
                 return entersOwn(IN_TYPE);
             }
-            return lexer.token == BECOMES && declaration.word == WORD_DEF ? entersOwn(IN_VALUE) : fails();
+            return lexer.token == BECOMES && word == WORD_DEF ? entersOwn(IN_VALUE) : fails();
         }
 
         private boolean readConstructorName() {
             if (!declares(READ_COLON)) {
                 return false;
             }
-            declaration.addConstructor(lexer.name);
+            constructors.add(lexer.name, NONE, NONE);
             enter(IN_CONSTRUCTOR, NONE, NONE, NONE, NONE);
             mode = READ_COLON;
             return true;
@@ -1565,11 +1516,7 @@ public final class ProofDesk {
             if (lexer.token != NAME) {
                 return passes(COLON, BEGIN_TERM);
             }
-            if (waitingCount == waiting.length) {
-                waiting = Arrays.copyOf(waiting, 2 * waiting.length);
-            }
-            waiting[waitingCount] = lexer.name;
-            waitingCount++;
+            waiting.add(lexer.name);
             mode = READ_MORE_NAMES;
             return true;
         }
@@ -1577,24 +1524,25 @@ public final class ProofDesk {
         /** The names that wait from first on are bound, all with this type. */
         private void bindWaiting(int first, int type) {
             int twin = NONE;
-            for (int i = first; i < waitingCount; i++) {
-                int binder = terms.binder(waiting[i]);
+            for (int i = first; i < waiting.count; i++) {
+                int binder = terms.binder(waiting.get(i, 0));
                 terms.setTwin(binder, twin);
                 twin = binder;
-                bindName(waiting[i], binder, type);
+                bindName(binder, type);
             }
-            waitingCount = first;
+            waiting.count = first;
         }
 
-        private void bindName(int name, int binder, int with) {
-            declaration.addBound(binder, with, names.binderOf(name));
-            names.setBinder(name, binder);
+        /** A variable comes into scope; with is its type, or the value that a let gives it. */
+        private void bindName(int binder, int with) {
+            int itsName = terms.nameOf(binder);
+            bound.add(binder, with, names.binderOf(itsName));
+            names.setBinder(itsName, binder);
         }
 
         private void unbindLast() {
-            declaration.boundCount--;
-            int last = declaration.boundCount;
-            names.setBinder(terms.nameOf(declaration.binder(last)), declaration.shadowed(last));
+            int binder = bound.take();
+            names.setBinder(terms.nameOf(binder), bound.get(bound.count, 2));
         }
 
         private boolean beginTerm() {
@@ -1614,7 +1562,7 @@ public final class ProofDesk {
         private boolean readBinders() {
             boolean group = lexer.token == OPENING;
             depth++;
-            enter(group ? IN_GROUP : IN_NAMES, subject, place, declaration.boundCount, waitingCount);
+            enter(group ? IN_GROUP : IN_NAMES, subject, place, bound.count, waiting.count);
             mode = READ_NAME;
             return group;
         }
@@ -1636,7 +1584,7 @@ public final class ProofDesk {
         private boolean readAtom() {
             switch (lexer.token) {
                 case NAME:
-                    attach(meant(lexer.name));
+                    attach(meant());
                     return true;
                 case SORT_WORD:
                     attach(terms.sort(lexer.level, lexer.start));
@@ -1654,12 +1602,13 @@ public final class ProofDesk {
             }
         }
 
-        private int meant(int name) {
-            int binder = names.binderOf(name);
+        /** The variable or the global that the name at hand means. */
+        private int meant() {
+            int binder = names.binderOf(lexer.name);
             if (binder != NONE) {
                 return terms.variable(binder, lexer.start);
             }
-            int number = names.globalOf(name);
+            int number = names.globalOf(lexer.name);
             if (number == NONE) {
                 ledger.refuse(MEANS_NOTHING, lexer.start);
             }
@@ -1711,8 +1660,7 @@ public final class ProofDesk {
         }
 
         private boolean endTerm() {
-            frameTop--;
-            switch (left(0)) {
+            switch (frames.take()) {
                 case IN_ARROW:
                     term = terms.bind(ALL, terms.binder(NAMELESS), left(1), term, terms.place(left(1)));
                     return false;
@@ -1725,7 +1673,7 @@ public final class ProofDesk {
                 case IN_CAST: return closeAtom(terms.cast(left(3), term, left(2)));
                 case IN_NAMES: return closeBinders();
                 case IN_GROUP:
-                    frameTop++;
+                    frames.count++;
                     return passes(CLOSING, END_GROUP);
                 case IN_BODY: return closeBody();
                 case IN_LET_TYPE:
@@ -1752,12 +1700,12 @@ public final class ProofDesk {
 
         /** Behind a GROUP of fun or all: another one, or the last part. */
         private boolean endGroup() {
-            frameTop--;
+            frames.count--;
             if (lexer.token != OPENING) {
                 return closeBinders();
             }
             bindWaiting(left(4), term);
-            frameTop++;
+            frames.count++;
             mode = READ_NAME;
             return true;
         }
@@ -1773,8 +1721,8 @@ public final class ProofDesk {
         }
 
         private boolean closeBody() {
-            for (int i = declaration.boundCount - 1; i >= left(3); i--) {
-                term = terms.bind(left(1), declaration.binder(i), declaration.with(i), term, left(2));
+            for (int i = bound.count - 1; i >= left(3); i--) {
+                term = terms.bind(left(1), bound.get(i, 0), bound.get(i, 1), term, left(2));
                 unbindLast();
             }
             return false;
@@ -1785,32 +1733,31 @@ public final class ProofDesk {
                 return fails();
             }
             depth--;
-            bindName(left(1), terms.binder(left(1)), term);
+            bindName(terms.binder(left(1)), term);
             enter(IN_LET_BODY, NONE, left(2), left(3), NONE);
             return true;
         }
 
         private boolean closeLet() {
-            int last = declaration.boundCount - 1;
-            term = terms.let(declaration.binder(last), left(3), declaration.with(last), term, left(2));
+            int last = bound.count - 1;
+            term = terms.let(bound.get(last, 0), left(3), bound.get(last, 1), term, left(2));
             unbindLast();
             return false;
         }
 
         /** Behind a TERM that is in no other one. */
         private boolean endOwnTerm(int frame) {
-            int word = declaration.word;
-            if (frame == IN_TYPE || (frame == IN_QUESTION && declaration.value != NONE)) {
-                declaration.told = term;
+            if (frame == IN_TYPE || (frame == IN_QUESTION && value != NONE)) {
+                told = term;
             } else if (frame == IN_CONSTRUCTOR) {
-                declaration.setConstructorTerm(term);
+                constructors.set(constructors.count - 1, 1, term);
             } else {
-                declaration.value = term;
+                value = term;
             }
             if (word == WORD_DATA && lexer.token == BAR) {
                 return beginConstructor();
             }
-            if (word == WORD_CHECK && lexer.token == COLON && declaration.told == NONE) {
+            if (word == WORD_CHECK && lexer.token == COLON && told == NONE) {
                 return entersOwn(IN_QUESTION);
             }
             if ((word == WORD_DEF || word == WORD_LEMMA) && frame == IN_TYPE) {
@@ -1822,8 +1769,8 @@ public final class ProofDesk {
         }
 
         private boolean beginConstructor() {
-            if (names.globalOf(declaration.name) == NONE) {
-                names.setGlobal(declaration.name, shelf.count);
+            if (names.globalOf(name) == NONE) {
+                names.setGlobal(name, shelf.count);
             }
             mode = READ_CONSTRUCTOR_NAME;
             return true;
@@ -1843,8 +1790,6 @@ public final class ProofDesk {
         private static final int SPINE = 1;
         private static final int APPLIED = 2;
         private static final int BOUND = 3;
-        private static final int TASK = 3;
-        private static final int FRAME = 3;
         private static final int EMPTY = 0;
         private final Terms terms;
         private final Shelf shelf;
@@ -1853,14 +1798,11 @@ public final class ProofDesk {
         // NONE, head, scope, list. Scopes and lists go on in older cells only, so they have an end.
         private int[] heap = new int[1024];
         private int heapTop;
-        private int[] tasks = new int[TASK * 32];
-        private int taskTop;
-        private int[] results = new int[32];
-        private int resultCount;
-        private int[] frames = new int[FRAME * 8];
-        private int frameTop;
-        private int[] parts = new int[16];
-        private int partCount;
+        private final Pile tasks = new Pile(3);
+        private final Pile results = new Pile(1);
+        // Of each rec whose last part is being reduced: it, its parts, and the cell of the last one in their list.
+        private final Pile frames = new Pile(3);
+        private final Pile parts = new Pile(1);
         private int mode;
         private int term;
         private int scope;
@@ -1875,9 +1817,9 @@ public final class ProofDesk {
         /** The normal form of a term, with the argument for the variable of the binder if that is one. */
         int normalForm(int root, int binder, int argument) {
             heapTop = 1;
-            taskTop = 0;
-            resultCount = 0;
-            frameTop = 0;
+            tasks.count = 0;
+            results.count = 0;
+            frames.count = 0;
             term = root;
             scope = binder == NONE ? EMPTY : extend(EMPTY, binder, thunk(argument, EMPTY));
             arguments = EMPTY;
@@ -1890,7 +1832,7 @@ public final class ProofDesk {
                     default: takeTask(); break;
                 }
             }
-            return ledger.goesOn() ? results[0] : NONE;
+            return ledger.goesOn() ? results.top() : NONE;
         }
 
         private int cell(int size) {
@@ -2028,25 +1970,18 @@ public final class ProofDesk {
                 mode = REDUCED;
                 return;
             }
-            if (FRAME * (frameTop + 1) > frames.length) {
-                frames = Arrays.copyOf(frames, 2 * frames.length);
-            }
-            frames[FRAME * frameTop] = term;
-            frames[FRAME * frameTop + 1] = arguments;
-            frames[FRAME * frameTop + 2] = last;
-            frameTop++;
+            frames.add(term, arguments, last);
             resumeThunk(heap[last]);
             arguments = EMPTY;
         }
 
         /** The head is reduced: of the last part of a rec, or of a term that is wanted in normal form. */
         private void endReduction() {
-            if (frameTop == 0) {
+            if (frames.count == 0) {
                 writeHead();
                 return;
             }
-            int at = FRAME * (frameTop - 1);
-            if (isWhole(terms.ref(frames[at]))) {
+            if (isWhole(terms.ref(frames.top()))) {
                 mode = CONTRACT;
                 return;
             }
@@ -2055,11 +1990,10 @@ public final class ProofDesk {
             heap[reduced + 1] = term;
             heap[reduced + 2] = scope;
             heap[reduced + 3] = arguments;
-            heap[frames[at + 2]] = reduced;
-            term = frames[at];
+            term = frames.take();
             scope = EMPTY;
-            arguments = frames[at + 1];
-            frameTop--;
+            arguments = frames.get(frames.count, 1);
+            heap[frames.get(frames.count, 2)] = reduced;
         }
 
         /** Whether what was reduced is a constructor of the family with all of its parts. */
@@ -2080,22 +2014,21 @@ public final class ProofDesk {
         }
 
         private void contractRec() {
-            frameTop--;
-            int at = FRAME * frameTop;
             int constructor = terms.ref(term);
-            int family = terms.ref(frames[at]);
+            int rec = frames.take();
+            int family = terms.ref(rec);
             int calls = shelf.get(constructor, Shelf.CALL_COUNT);
             // The contraction itself, and the applications of what comes to the arguments and the calls.
             ledger.charge(1 + shelf.get(constructor, Shelf.PARTS) + calls);
-            int inner = scopeOfRec(frames[at], frames[at + 1]);
+            int inner = scopeOfRec(rec, frames.get(frames.count, 1));
             int chosen = lookUp(shelf.get(family, Shelf.HEAD) + 1 + constructor - family, inner);
             inner = listParts(constructor, inner);
-            int list = heap[frames[at + 2] + 1];
+            int list = heap[frames.get(frames.count, 2) + 1];
             for (int i = calls - 1; i >= 0; i--) {
                 list = prepend(thunk(shelf.call(constructor, i), inner), list);
             }
-            for (int i = partCount - 1; i >= 0; i--) {
-                list = prepend(parts[i], list);
+            for (int i = parts.count - 1; i >= 0; i--) {
+                list = prepend(parts.get(i, 0), list);
             }
             arguments = list;
             resumeThunk(chosen);
@@ -2130,36 +2063,14 @@ public final class ProofDesk {
                 at = heap[at + 1];
             }
             int inner = outer;
-            partCount = 0;
+            parts.count = 0;
             for (int i = shelf.get(constructor, Shelf.PARTS); i > 0; i--) {
-                if (partCount == parts.length) {
-                    parts = Arrays.copyOf(parts, 2 * parts.length);
-                }
-                parts[partCount] = heap[at];
-                partCount++;
+                parts.add(heap[at]);
                 inner = extend(inner, terms.ref(type), heap[at]);
                 type = terms.second(type);
                 at = heap[at + 1];
             }
             return inner;
-        }
-
-        private void addTask(int task, int a, int b) {
-            if (TASK * (taskTop + 1) > tasks.length) {
-                tasks = Arrays.copyOf(tasks, 2 * tasks.length);
-            }
-            tasks[TASK * taskTop] = task;
-            tasks[TASK * taskTop + 1] = a;
-            tasks[TASK * taskTop + 2] = b;
-            taskTop++;
-        }
-
-        private void addResult(int node) {
-            if (resultCount == results.length) {
-                results = Arrays.copyOf(results, 2 * results.length);
-            }
-            results[resultCount] = node;
-            resultCount++;
         }
 
         /** A node of the normal form is known; its parts are tasks. */
@@ -2171,43 +2082,35 @@ public final class ProofDesk {
                 int old = terms.ref(term);
                 int binder = terms.binder(terms.nameOf(old));
                 int inner = extend(scope, old, thunk(terms.variable(binder, 0), EMPTY));
-                addTask(BOUND, kind, binder);
-                addTask(NORMAL, thunk(terms.second(term), inner), NONE);
-                addTask(NORMAL, thunk(terms.first(term), scope), NONE);
+                tasks.add(BOUND, kind, binder);
+                tasks.add(NORMAL, thunk(terms.second(term), inner), NONE);
+                tasks.add(NORMAL, thunk(terms.first(term), scope), NONE);
             } else {
-                addResult(term);
-                addTask(SPINE, arguments, NONE);
+                results.add(term);
+                tasks.add(SPINE, arguments, NONE);
             }
         }
 
         private void takeTask() {
-            if (taskTop == 0) {
+            if (tasks.count == 0) {
                 mode = OVER;
                 return;
             }
-            taskTop--;
-            int a = tasks[TASK * taskTop + 1];
-            int b = tasks[TASK * taskTop + 2];
-            switch (tasks[TASK * taskTop]) {
-                case NORMAL:
-                    normalize(a);
-                    break;
-                case SPINE:
-                    if (a != EMPTY) {
-                        ledger.charge(1);
-                        addTask(SPINE, heap[a + 1], NONE);
-                        addTask(APPLIED, NONE, NONE);
-                        addTask(NORMAL, heap[a], NONE);
-                    }
-                    break;
-                case APPLIED:
-                    resultCount--;
-                    results[resultCount - 1] = terms.apply(results[resultCount - 1], results[resultCount]);
-                    break;
-                default:
-                    resultCount--;
-                    results[resultCount - 1] = terms.bind(a, b, results[resultCount - 1], results[resultCount], 0);
-                    break;
+            int task = tasks.take();
+            int a = tasks.get(tasks.count, 1);
+            if (task == NORMAL) {
+                normalize(a);
+            } else if (task == APPLIED) {
+                int argument = results.take();
+                results.add(terms.apply(results.take(), argument));
+            } else if (task == BOUND) {
+                int body = results.take();
+                results.add(terms.bind(a, tasks.get(tasks.count, 2), results.take(), body, 0));
+            } else if (a != EMPTY) {
+                ledger.charge(1);
+                tasks.add(SPINE, heap[a + 1], NONE);
+                tasks.add(APPLIED, NONE, NONE);
+                tasks.add(NORMAL, heap[a], NONE);
             }
         }
 
@@ -2227,8 +2130,6 @@ public final class ProofDesk {
 
     /** Finds the types of terms, task by task, and says whether one type fits another. */
     private static final class Typer {
-        private static final int TASK = 3;
-        private static final int PAIR = 3;
         // Besides pairs of nodes that must be the same, or fit, there are pairs of binders that come and go together.
         private static final int SAME = 0;
         private static final int FITTING = 1;
@@ -2237,15 +2138,12 @@ public final class ProofDesk {
         private final Terms terms;
         private final Shelf shelf;
         private final Ledger ledger;
-        private int[] tasks = new int[TASK * 32];
-        private int taskTop;
+        private final Pile tasks = new Pile(3);
         private int task;
         private int subject;
         private int object;
-        private int[] results = new int[32];
-        private int resultCount;
-        private int[] pairs = new int[PAIR * 32];
-        private int pairTop;
+        private final Pile results = new Pile(1);
+        private final Pile pairs = new Pile(3);
         private int[] leftLinks = new int[128];
         private int[] rightLinks = new int[128];
 
@@ -2256,47 +2154,35 @@ public final class ProofDesk {
         }
 
         void clear() {
-            taskTop = 0;
-            resultCount = 0;
+            tasks.count = 0;
+            results.count = 0;
         }
 
         /** Tasks are done in the reverse order of being added. */
         void add(int what, int a, int b) {
-            if (TASK * (taskTop + 1) > tasks.length) {
-                tasks = Arrays.copyOf(tasks, 2 * tasks.length);
-            }
-            tasks[TASK * taskTop] = what;
-            tasks[TASK * taskTop + 1] = a;
-            tasks[TASK * taskTop + 2] = b;
-            taskTop++;
+            tasks.add(what, a, b);
         }
 
         boolean takeTask() {
-            if (taskTop == 0) {
+            if (tasks.count == 0) {
                 return false;
             }
-            taskTop--;
-            task = tasks[TASK * taskTop];
-            subject = tasks[TASK * taskTop + 1];
-            object = tasks[TASK * taskTop + 2];
+            task = tasks.take();
+            subject = tasks.get(tasks.count, 1);
+            object = tasks.get(tasks.count, 2);
             return true;
         }
 
         void give(int node) {
-            if (resultCount == results.length) {
-                results = Arrays.copyOf(results, 2 * results.length);
-            }
-            results[resultCount] = node;
-            resultCount++;
+            results.add(node);
         }
 
         int take() {
-            resultCount--;
-            return results[resultCount];
+            return results.take();
         }
 
         int latest() {
-            return results[resultCount - 1];
+            return results.top();
         }
 
         void perform() {
@@ -2449,15 +2335,14 @@ public final class ProofDesk {
                 leftLinks = new int[2 * terms.binders];
                 rightLinks = new int[leftLinks.length];
             }
-            pairTop = 0;
-            addPair(FITTING, left, right);
+            pairs.count = 0;
+            pairs.add(FITTING, left, right);
             int links = 0;
             boolean fine = true;
-            for (int steps = MANY; steps > 0 && pairTop > 0; steps--) {
-                pairTop--;
-                int how = pairs[PAIR * pairTop];
-                int a = pairs[PAIR * pairTop + 1];
-                int b = pairs[PAIR * pairTop + 2];
+            for (int steps = MANY; steps > 0 && pairs.count > 0; steps--) {
+                int how = pairs.take();
+                int a = pairs.get(pairs.count, 1);
+                int b = pairs.get(pairs.count, 2);
                 if (how == LINK || how == UNLINK) {
                     links++;
                     leftLinks[a] = how == LINK ? links : 0;
@@ -2467,16 +2352,6 @@ public final class ProofDesk {
                 }
             }
             return fine;
-        }
-
-        private void addPair(int how, int a, int b) {
-            if (PAIR * (pairTop + 1) > pairs.length) {
-                pairs = Arrays.copyOf(pairs, 2 * pairs.length);
-            }
-            pairs[PAIR * pairTop] = how;
-            pairs[PAIR * pairTop + 1] = a;
-            pairs[PAIR * pairTop + 2] = b;
-            pairTop++;
         }
 
         /** Whether two nodes match but for their parts, which become pairs of their own. */
@@ -2495,15 +2370,15 @@ public final class ProofDesk {
                 case REC:
                     return left == right && terms.first(a) == terms.first(b);
                 case APPLY:
-                    addPair(SAME, terms.second(a), terms.second(b));
-                    addPair(SAME, terms.first(a), terms.first(b));
+                    pairs.add(SAME, terms.second(a), terms.second(b));
+                    pairs.add(SAME, terms.first(a), terms.first(b));
                     return true;
                 case FUN:
                 case ALL:
-                    addPair(UNLINK, left, right);
-                    addPair(kind == ALL ? how : SAME, terms.second(a), terms.second(b));
-                    addPair(LINK, left, right);
-                    addPair(SAME, terms.first(a), terms.first(b));
+                    pairs.add(UNLINK, left, right);
+                    pairs.add(kind == ALL ? how : SAME, terms.second(a), terms.second(b));
+                    pairs.add(LINK, left, right);
+                    pairs.add(SAME, terms.first(a), terms.first(b));
                     return true;
                 default:
                     return left == right;
@@ -2513,21 +2388,20 @@ public final class ProofDesk {
 
     /** Judges the declaration that was read: does what is to be done for it, until all is done or a reason is met. */
     private static final class Declarer {
-        private final Declaration declaration;
+        private final Parser declaration;
         private final Typer typer;
         private final Reducer reducer;
         private final Printer printer;
         private final Terms terms;
         private final Shelf shelf;
         private final Ledger ledger;
-        private int[] telescope = new int[16];
-        private int telescopeLength;
+        private final Pile telescope = new Pile(1);
         private int family;
         private int familyLevel;
         private boolean onlyProofs;
 
         Declarer(Parser parser, Typer typer, Reducer reducer, Printer printer) {
-            this.declaration = parser.declaration;
+            this.declaration = parser;
             this.typer = typer;
             this.reducer = reducer;
             this.printer = printer;
@@ -2549,7 +2423,7 @@ public final class ProofDesk {
                     case INSTANTIATE: instantiate(typer.take(), terms.second(typer.subject)); break;
                     case PRINT:
                         if (printer.printLine(typer.take()) == NONE) {
-                            ledger.refuse(PAPER_FULL, declaration.place);
+                            ledger.refuse(PAPER_FULL, declaration.start);
                         }
                         break;
                     case KEEP: keep(); break;
@@ -2574,7 +2448,7 @@ public final class ProofDesk {
             if (shelf.hasRoom()) {
                 shelf.keepPending();
             } else {
-                ledger.refuse(SHELF_FULL, declaration.place);
+                ledger.refuse(SHELF_FULL, declaration.start);
             }
         }
 
@@ -2582,7 +2456,7 @@ public final class ProofDesk {
             int value = declaration.value;
             switch (declaration.word) {
                 case WORD_DATA:
-                    telescopeLength = 0;
+                    telescope.count = 0;
                     typer.add(PARAMETER, 0, NONE);
                     break;
                 case WORD_NORM:
@@ -2596,7 +2470,7 @@ public final class ProofDesk {
                         typer.add(PRINT, NONE, NONE);
                         typer.add(INFER, value, NONE);
                     } else {
-                        typer.add(INFER, terms.cast(value, declaration.told, declaration.place), NONE);
+                        typer.add(INFER, terms.cast(value, declaration.told, declaration.start), NONE);
                     }
                     break;
                 default:
@@ -2624,8 +2498,8 @@ public final class ProofDesk {
 
         private int inGroups(int kind, int body) {
             int term = body;
-            for (int i = declaration.boundCount - 1; i >= 0; i--) {
-                term = terms.bind(kind, declaration.binder(i), declaration.with(i), term, declaration.place);
+            for (int i = declaration.bound.count - 1; i >= 0; i--) {
+                term = terms.bind(kind, declaration.bound.get(i, 0), declaration.bound.get(i, 1), term, declaration.start);
             }
             return term;
         }
@@ -2655,33 +2529,26 @@ public final class ProofDesk {
             typer.add(KEEP, NONE, NONE);
         }
 
-        private void addToTelescope(int binder) {
-            if (telescopeLength == telescope.length) {
-                telescope = Arrays.copyOf(telescope, 2 * telescope.length);
-            }
-            telescope[telescopeLength] = binder;
-            telescopeLength++;
-        }
-
         /** The end behind all the variables of the telescope. */
         private int overTelescope(int end) {
             int term = end;
-            for (int i = telescopeLength - 1; i >= 0; i--) {
-                term = terms.bind(ALL, telescope[i], terms.typeOf(telescope[i]), term, 0);
+            for (int i = telescope.count - 1; i >= 0; i--) {
+                int binder = telescope.get(i, 0);
+                term = terms.bind(ALL, binder, terms.typeOf(binder), term, 0);
             }
             return term;
         }
 
         private void addParameter(int i) {
-            if (i == declaration.boundCount) {
+            if (i == declaration.bound.count) {
                 typer.add(SHAPE, NONE, NONE);
                 return;
             }
-            int binder = declaration.binder(i);
-            addToTelescope(binder);
+            int binder = declaration.bound.get(i, 0);
+            telescope.add(binder);
             typer.add(PARAMETER, i + 1, NONE);
-            typer.addEntry(binder, declaration.with(i));
-            typer.addLook(binder, declaration.with(i));
+            typer.addEntry(binder, declaration.bound.get(i, 1));
+            typer.addLook(binder, declaration.bound.get(i, 1));
         }
 
         private int behindAll(int term) {
@@ -2701,7 +2568,7 @@ public final class ProofDesk {
 
         private void addIndex(int term) {
             if (terms.kind(term) == ALL) {
-                addToTelescope(terms.ref(term));
+                telescope.add(terms.ref(term));
                 typer.add(INDEX, terms.second(term), NONE);
                 typer.addEntry(terms.ref(term), terms.first(term));
                 typer.addLook(terms.ref(term), terms.first(term));
@@ -2716,22 +2583,22 @@ public final class ProofDesk {
                 ledger.refuse(NO_NEXT_SORT, terms.place(sort));
                 return;
             }
-            int parameters = declaration.boundCount;
+            int parameters = declaration.bound.count;
             family = shelf.addPending(FAMILY, declaration.name, overTelescope(sort), NONE);
             shelf.set(family, Shelf.PARAMETERS, parameters);
-            shelf.set(family, Shelf.PARTS, telescopeLength - parameters);
-            shelf.set(family, Shelf.KIN, declaration.constructorCount);
+            shelf.set(family, Shelf.PARTS, telescope.count - parameters);
+            shelf.set(family, Shelf.KIN, declaration.constructors.count);
             onlyProofs = true;
             typer.add(NEXT_CONSTRUCTOR, 0, NONE);
         }
 
         private void beginConstructor(int i) {
-            telescopeLength = declaration.boundCount;
-            if (i == declaration.constructorCount) {
+            telescope.count = declaration.bound.count;
+            if (i == declaration.constructors.count) {
                 keepFamily();
                 return;
             }
-            int term = declaration.constructorTerm(i);
+            int term = declaration.constructors.get(i, 1);
             if (!isFamilyApplied(behindAll(term), false)) {
                 ledger.refuse(NO_CONSTRUCTOR_SHAPE, terms.place(term));
             }
@@ -2739,7 +2606,7 @@ public final class ProofDesk {
         }
 
         private void keepFamily() {
-            int constructors = declaration.constructorCount;
+            int constructors = declaration.constructors.count;
             boolean free = familyLevel != PROP || constructors == 0 || (constructors == 1 && onlyProofs);
             shelf.set(family, Shelf.FREE, free ? 1 : 0);
             typer.add(EQUIP, NONE, NONE);
@@ -2759,7 +2626,7 @@ public final class ProofDesk {
                     if (notInside && terms.mentions(part, family)) {
                         return false;
                     }
-                } else if (terms.kind(part) != VARIABLE || terms.ref(part) != declaration.binder(i)) {
+                } else if (terms.kind(part) != VARIABLE || terms.ref(part) != declaration.bound.get(i, 0)) {
                     return false;
                 }
                 head = terms.first(head);
@@ -2771,7 +2638,7 @@ public final class ProofDesk {
             if (terms.kind(term) == ALL) {
                 int binder = terms.ref(term);
                 int type = terms.first(term);
-                addToTelescope(binder);
+                telescope.add(binder);
                 typer.add(ARGUMENT, terms.second(term), i);
                 typer.add(BE_POSITIVE, binder, type);
                 typer.addEntry(binder, type);
@@ -2811,9 +2678,9 @@ public final class ProofDesk {
 
         private void storeConstructor(int i) {
             int type = overTelescope(typer.take());
-            int g = shelf.addPending(CONSTRUCTOR, declaration.constructorName(i), type, NONE);
-            shelf.set(g, Shelf.PARAMETERS, declaration.boundCount);
-            shelf.set(g, Shelf.PARTS, telescopeLength - declaration.boundCount);
+            int g = shelf.addPending(CONSTRUCTOR, declaration.constructors.get(i, 0), type, NONE);
+            shelf.set(g, Shelf.PARAMETERS, declaration.bound.count);
+            shelf.set(g, Shelf.PARTS, telescope.count - declaration.bound.count);
             shelf.set(g, Shelf.KIN, family);
             typer.add(NEXT_CONSTRUCTOR, i + 1, NONE);
         }
@@ -2821,7 +2688,6 @@ public final class ProofDesk {
 
     /** The paper, and how normal forms are written on it. */
     private static final class Printer {
-        private static final int TASK = 3;
         // Tasks of a print, and of the survey before it.
         private static final int WHOLE = 0;
         private static final int AS_PART = 1;
@@ -2842,15 +2708,15 @@ public final class ProofDesk {
         private byte[] sheet = new byte[256];
         private int length;
         private boolean full;
-        private int[] tasks = new int[TASK * 32];
-        private int taskTop;
-        private int[] used = new int[32];
+        private final Pile tasks = new Pile(3);
+        // For each fun and all in the order of printing, whether its variable is in its last part.
+        private final Pile used = new Pile(1);
         private int binderCount;
         private int[] scopes = new int[64];
         private final byte[] spelling = new byte[LONGEST_NAME + LONGEST_NUMBER];
         private final int[] clashes = new int[MOST_CLASHES];
         private int search;
-        private int[] stack = new int[32];
+        private final Pile stack = new Pile(1);
 
         Printer(Names names, Shelf shelf) {
             this.names = names;
@@ -2865,15 +2731,14 @@ public final class ProofDesk {
             survey(root);
             Arrays.fill(scopes, NONE);
             binderCount = 0;
-            taskTop = 0;
-            addTask(WHOLE, root, NONE);
-            for (int left = MANY; left > 0 && taskTop > 0 && !full; left--) {
-                taskTop--;
-                int a = tasks[TASK * taskTop + 1];
-                if (tasks[TASK * taskTop] == WHOLE && terms.kind(a) > APPLY) {
+            tasks.add(WHOLE, root, NONE);
+            for (int left = MANY; left > 0 && tasks.count > 0 && !full; left--) {
+                int task = tasks.take();
+                int a = tasks.get(tasks.count, 1);
+                if (task == WHOLE && terms.kind(a) > APPLY) {
                     printBinder(a);
                 } else {
-                    print(tasks[TASK * taskTop], a, tasks[TASK * taskTop + 2]);
+                    print(task, a, tasks.get(tasks.count, 2));
                 }
             }
             put(10);
@@ -2884,29 +2749,19 @@ public final class ProofDesk {
             return length - before;
         }
 
-        private void addTask(int task, int a, int b) {
-            if (TASK * (taskTop + 1) > tasks.length) {
-                tasks = Arrays.copyOf(tasks, 2 * tasks.length);
-            }
-            tasks[TASK * taskTop] = task;
-            tasks[TASK * taskTop + 1] = a;
-            tasks[TASK * taskTop + 2] = b;
-            taskTop++;
-        }
-
-        /** Finds for each fun and all, in the order of printing, whether its variable is in its last part. */
+        /** Finds out which variables are used, going through the term in the order of printing. */
         private void survey(int root) {
             if (scopes.length < terms.binders) {
                 scopes = new int[2 * terms.binders];
             }
-            binderCount = 0;
-            taskTop = 0;
-            addTask(WHOLE, root, NONE);
-            for (int left = MANY; left > 0 && taskTop > 0; left--) {
-                taskTop--;
-                int a = tasks[TASK * taskTop + 1];
-                if (tasks[TASK * taskTop] == OPEN_SCOPE) {
-                    scopes[a] = tasks[TASK * taskTop + 2];
+            used.count = 0;
+            tasks.count = 0;
+            tasks.add(WHOLE, root, NONE);
+            for (int left = MANY; left > 0 && tasks.count > 0; left--) {
+                int task = tasks.take();
+                int a = tasks.get(tasks.count, 1);
+                if (task == OPEN_SCOPE) {
+                    scopes[a] = tasks.get(tasks.count, 2);
                 } else {
                     surveyNode(a);
                 }
@@ -2916,19 +2771,15 @@ public final class ProofDesk {
         private void surveyNode(int node) {
             int kind = terms.kind(node);
             if (kind == VARIABLE) {
-                used[scopes[terms.ref(node)]] = 1;
+                used.set(scopes[terms.ref(node)], 0, 1);
             } else if (kind == APPLY) {
-                addTask(WHOLE, terms.second(node), NONE);
-                addTask(WHOLE, terms.first(node), NONE);
+                tasks.add(WHOLE, terms.second(node), NONE);
+                tasks.add(WHOLE, terms.first(node), NONE);
             } else if (kind == FUN || kind == ALL) {
-                if (binderCount == used.length) {
-                    used = Arrays.copyOf(used, 2 * used.length);
-                }
-                used[binderCount] = 0;
-                addTask(WHOLE, terms.second(node), NONE);
-                addTask(OPEN_SCOPE, terms.ref(node), binderCount);
-                addTask(WHOLE, terms.first(node), NONE);
-                binderCount++;
+                tasks.add(WHOLE, terms.second(node), NONE);
+                tasks.add(OPEN_SCOPE, terms.ref(node), used.count);
+                tasks.add(WHOLE, terms.first(node), NONE);
+                used.add(0);
             }
         }
 
@@ -2949,9 +2800,9 @@ public final class ProofDesk {
         private void printBracketed(int node, boolean bracketed) {
             if (bracketed) {
                 put('(');
-                addTask(WRITE_CLOSING, NONE, NONE);
+                tasks.add(WRITE_CLOSING, NONE, NONE);
             }
-            addTask(WHOLE, node, NONE);
+            tasks.add(WHOLE, node, NONE);
         }
 
         private void printNode(int node) {
@@ -2967,21 +2818,21 @@ public final class ProofDesk {
                     writeSort(terms.first(node));
                     break;
                 default:
-                    addTask(AS_PART, terms.second(node), NONE);
-                    addTask(WRITE_GAP, NONE, NONE);
-                    addTask(AS_FIRST, terms.first(node), NONE);
+                    tasks.add(AS_PART, terms.second(node), NONE);
+                    tasks.add(WRITE_GAP, NONE, NONE);
+                    tasks.add(AS_FIRST, terms.first(node), NONE);
                     break;
             }
         }
 
         private void printBinder(int node) {
             boolean fun = terms.kind(node) == FUN;
-            boolean named = fun || used[binderCount] == 1;
+            boolean named = fun || used.get(binderCount, 0) == 1;
             binderCount++;
             if (!named) {
-                addTask(WHOLE, terms.second(node), NONE);
-                addTask(WRITE_ARROW, NONE, NONE);
-                addTask(AS_FIRST, terms.first(node), NONE);
+                tasks.add(WHOLE, terms.second(node), NONE);
+                tasks.add(WRITE_ARROW, NONE, NONE);
+                tasks.add(AS_FIRST, terms.first(node), NONE);
                 return;
             }
             int binder = terms.ref(node);
@@ -2990,33 +2841,28 @@ public final class ProofDesk {
             write(fun ? "fun " : "all ");
             writeName(name, number);
             write(": ");
-            addTask(CLOSE_SCOPE, binder, NONE);
-            addTask(WHOLE, terms.second(node), NONE);
-            addTask(OPEN_SCOPE, binder, number);
-            addTask(fun ? WRITE_DOUBLE_ARROW : WRITE_COMMA, NONE, NONE);
-            addTask(WHOLE, terms.first(node), NONE);
+            tasks.add(CLOSE_SCOPE, binder, NONE);
+            tasks.add(WHOLE, terms.second(node), NONE);
+            tasks.add(OPEN_SCOPE, binder, number);
+            tasks.add(fun ? WRITE_DOUBLE_ARROW : WRITE_COMMA, NONE, NONE);
+            tasks.add(WHOLE, terms.first(node), NONE);
         }
 
         /** The least number that, put to the name, makes it one that nothing else in the last part is printed with. */
         private int leastNumber(int name, int last) {
             search++;
-            int height = 1;
-            stack[0] = last;
-            for (int left = MANY; left > 0 && height > 0; left--) {
-                height--;
-                int node = stack[height];
+            stack.count = 0;
+            stack.add(last);
+            for (int left = MANY; left > 0 && stack.count > 0; left--) {
+                int node = stack.take();
                 int ref = terms.ref(node);
                 if (terms.kind(node) == GLOBAL) {
                     noteClash(name, shelf.nameOf(ref), 0);
                 } else if (terms.kind(node) == VARIABLE && scopes[ref] != NONE) {
                     noteClash(name, terms.nameOf(ref), scopes[ref]);
                 } else if (terms.hasParts(node)) {
-                    if (height + 2 > stack.length) {
-                        stack = Arrays.copyOf(stack, 2 * stack.length);
-                    }
-                    stack[height] = terms.second(node);
-                    stack[height + 1] = terms.first(node);
-                    height += 2;
+                    stack.add(terms.second(node));
+                    stack.add(terms.first(node));
                 }
             }
             int number = 0;
