@@ -1,0 +1,144 @@
+/** Promises 9 to 14: globals, find, about, leans, show, forget. */
+public final class GlobalsTest {
+    public static void main(String[] args) {
+        globals();
+        find();
+        about();
+        leans();
+        show();
+        forget();
+        Bench.close("GlobalsTest");
+    }
+
+    private static Bench filled() {
+        Bench bench = new Bench();
+        bench.end("axiom A: Type. axiom a: A. def d (x: A): A := x. lemma l: A := d a."
+                + " data nat: Type | z: nat | s: nat -> nat. def one := s z.");
+        return bench;
+    }
+
+    private static void globals() {
+        Bench bench = filled();
+        Bench.due("globals()", bench.desk.globals(), 8);
+        bench.end("axiom q: w. axiom A: Type. norm A. check A. check A: Type.");
+        Bench.due("refused and questions bring none", bench.desk.globals(), 8);
+        bench.end("axiom q: A.");
+        Bench.due("one more", bench.desk.globals(), 9);
+        Bench.due("it is the last", bench.find("q"), 8);
+        bench.end("data D: Type | c: D | e: z.");
+        Bench.due("a data that is refused brings none", bench.desk.globals(), 9);
+        Bench.due("nor its name", bench.find("D"), -1);
+    }
+
+    private static void find() {
+        Bench bench = filled();
+        Bench.due("find A", bench.find("A"), 0);
+        Bench.due("find nat", bench.find("nat"), 4);
+        Bench.due("find z", bench.find("z"), 5);
+        Bench.due("find s", bench.find("s"), 6);
+        Bench.due("find one", bench.find("one"), 7);
+        Bench.due("find x, a variable's", bench.find("x"), -1);
+        Bench.due("find on", bench.find("on"), -1);
+        Bench.due("find ones", bench.find("ones"), -1);
+        Bench.due("find axiom", bench.find("axiom"), -1);
+        Bench.due("find with a blank", bench.find("one "), -1);
+        Bench.due("find M", bench.find("M"), -1);
+        bench.feed("one");
+        Bench.due("find(0)", bench.desk.find(0), -1);
+        Bench.due("find(-1)", bench.desk.find(-1), -1);
+        Bench.due("find(21)", bench.desk.find(21), -1);
+        Bench.due("nothing was changed", bench.desk.find(3), 7);
+        Bench.due("all bytes are gone", bench.desk.find(1), -1);
+        bench.feed("qqq");
+        Bench.due("not there", bench.desk.find(3), -1);
+        Bench.due("all bytes are gone then too", bench.desk.find(1), -1);
+        bench.feed("one");
+        Bench.due("the first n bytes alone", bench.desk.find(2), -1);
+    }
+
+    private static void about() {
+        Bench bench = filled();
+        int[][] want = {
+            {0, 1, 0, 0, 0, 0}, {0, 1, 0, 0, 0, 0}, {1, 3, 0, 0, 0, 0}, {2, 1, 0, 0, 0, 0},
+            {3, 1, 0, 0, 2, 1}, {4, 1, 0, 0, 4, 0}, {4, 3, 0, 1, 4, 0}, {1, 1, 0, 0, 0, 0}};
+        for (int g = 0; g < want.length; g++) {
+            for (int what = 0; what < 6; what++) {
+                Bench.due("about(" + g + ", " + what + ")", bench.desk.about(g, what), want[g][what]);
+            }
+            Bench.due("about(" + g + ", -1)", bench.desk.about(g, -1), -1);
+            Bench.due("about(" + g + ", 6)", bench.desk.about(g, 6), -1);
+        }
+        Bench.due("about(8, 0)", bench.desk.about(8, 0), -1);
+        Bench.due("about(-1, 0)", bench.desk.about(-1, 0), -1);
+        bench.end("data ex (A B: Type) (P: A -> Prop): nat -> A -> Prop | ei: all (a b: A), P a -> ex A B P z b.");
+        int[] family = {3, 13, 3, 2, 1, 0};
+        int[] constructor = {4, 27, 3, 3, 8, 0};
+        for (int what = 0; what < 6; what++) {
+            Bench.due("about(ex, " + what + ")", bench.desk.about(8, what), family[what]);
+            Bench.due("about(ei, " + what + ")", bench.desk.about(9, what), constructor[what]);
+        }
+    }
+
+    private static void leans() {
+        Bench bench = filled();
+        bench.end("data D (n: nat): Type | c: A -> D n | e: D n. data E: Type. def k: nat := (z: (fun x: E => nat) -> nat)."
+                + "def m: nat := let x: E -> E := fun y: E => y in one. def r := rec E Prop. lemma b: D one := e one."
+                + "def w := (one: (fun x: Type => nat) E).");
+        String[] names = {"A", "a", "d", "l", "nat", "z", "s", "one", "D", "c", "e", "E", "m", "r", "b", "w"};
+        String[] want = {
+            "", "A", "A", "A a d", "nat", "nat", "nat", "nat z s", "A nat D", "A nat D", "A nat D", "",
+            "nat z s one E", "E", "A nat z s one D e", "nat z s one"};
+        for (int i = 0; i < names.length; i++) {
+            StringBuilder got = new StringBuilder();
+            for (String other : names) {
+                if (bench.desk.leans(bench.find(names[i]), bench.find(other))) {
+                    got.append(got.length() == 0 ? "" : " ").append(other);
+                }
+            }
+            Bench.due(names[i] + " leans on", got.toString(), want[i]);
+        }
+        Bench.due("leans(-1, 0)", bench.desk.leans(-1, 0), false);
+        Bench.due("leans(1, -1)", bench.desk.leans(1, -1), false);
+        Bench.due("leans(1, 99)", bench.desk.leans(1, 99), false);
+        Bench.due("leans(99, 1)", bench.desk.leans(99, 1), false);
+    }
+
+    private static void show() {
+        Bench bench = filled();
+        Bench.due("show(0)", bench.desk.show(0), 6);
+        Bench.due("show(2)", bench.desk.show(2), 7);
+        Bench.due("show(6)", bench.desk.show(6), 11);
+        Bench.due("show(8)", bench.desk.show(8), -1);
+        Bench.due("show(-1)", bench.desk.show(-1), -1);
+        Bench.due("paper", bench.paper(), "Type0/A -> A/nat -> nat/");
+    }
+
+    private static void forget() {
+        Bench bench = filled();
+        Bench.due("forget(9)", bench.desk.forget(9), -1);
+        Bench.due("forget(-1)", bench.desk.forget(-1), -1);
+        Bench.due("forget(5), a constructor", bench.desk.forget(5), -1);
+        Bench.due("forget(6), a constructor", bench.desk.forget(6), -1);
+        Bench.due("nothing went", bench.desk.globals(), 8);
+        Bench.due("forget(8)", bench.desk.forget(8), 0);
+        Bench.due("forget(7)", bench.desk.forget(7), 1);
+        Bench.due("it is no more", bench.find("one"), -1);
+        Bench.due("find z still", bench.find("z"), 5);
+        Bench.due("its name is free", bench.verdicts("def one: A := a. norm one."), "accepted 3; accepted 3");
+        Bench.due("forget(4), a family", bench.desk.forget(4), 4);
+        Bench.due("globals()", bench.desk.globals(), 4);
+        Bench.due("about(4, 0)", bench.desk.about(4, 0), -1);
+        Bench.due("show(4)", bench.desk.show(4), -1);
+        Bench.due("leans(4, 0)", bench.desk.leans(4, 0), false);
+        Bench.due("nat means nothing", bench.verdicts("norm nat."), "refused 1 at 5");
+        Bench.due("names come again in another order", bench.verdicts("data s: Type | nat: s | z: s -> s. norm z (z nat)."),
+                "accepted 6; accepted 16");
+        Bench.due("numbers too", bench.find("s"), 4);
+        bench.desk.tear();
+        Bench.due("shown", bench.shown("z"), "s -> s/");
+        Bench.due("verdicts and paper stay", bench.desk.forget(0), 7);
+        Bench.due("verdict stays", bench.verdict(1), "accepted 16");
+        Bench.due("nothing is left", bench.desk.globals(), 0);
+        Bench.due("a new start", bench.verdicts("axiom A: Prop. def a: Prop := A -> A. norm a."), "accepted 1; accepted 4; accepted 5");
+    }
+}
