@@ -655,9 +655,12 @@ public final class ProofDesk {
 
     /**
      * All nodes and binders: first those of the kept globals, then those of the declaration at hand. A binder is the
-     * place where a variable is bound; every fun, all and let that is written or made has one of its own.
+     * place where a variable is bound; every fun, all and let that is written or made has one of its own. So names do
+     * not matter to terms, parts can be shared, and nothing stands within the scope of its own binder once more.
      */
     private static final class Terms {
+        // A node: what it is, what it refers to, its parts (the type that a let told is its third one), how many nodes
+        // it has in all, and where it stands in the text.
         private static final int CELLS = 7;
         private static final int KIND = 0;
         private static final int REF = 1;
@@ -666,6 +669,7 @@ public final class ProofDesk {
         private static final int TOLD = 4;
         private static final int SIZE = 5;
         private static final int PLACE = 6;
+        // A binder.
         private static final int ROW = 6;
         private static final int NAMED = 0;
         private static final int TYPE = 1;
@@ -673,6 +677,7 @@ public final class ProofDesk {
         private static final int TWIN = 3;
         private static final int LEVEL = 4;
         private static final int COPY = 5;
+        // Types of several names are shared, so a written term can have more nodes than an int can count.
         private static final int GREATEST_SIZE = 1 << 28;
         private int[] cells = new int[CELLS * 256];
         private int top;
@@ -941,21 +946,28 @@ public final class ProofDesk {
         private static final int TYPE = 2;
         private static final int VALUE = 3;
         private static final int PARAMETERS = 4;
+        // Of a family how many indices and how many constructors, of a constructor how many arguments and its family.
         private static final int PARTS = 5;
         private static final int KIN = 6;
+        // Whether rec is allowed for any sort.
         private static final int FREE = 7;
+        // Of this global and all before it.
         private static final int NODES = 8;
+        // Where the nodes of its declaration begin and end, and how many binders, names and calls there were before.
         private static final int START = 9;
         private static final int STOP = 10;
         private static final int BINDER_MARK = 11;
         private static final int NAME_MARK = 12;
         private static final int CALL_MARK = 13;
+        // Of a family: the binder that stands for its rec, behind which come those of the motive and of the parts for
+        // constructors; the binder of the last part and its type; and the type of a rec behind its motive.
         private static final int HEAD = 14;
-        private static final int TARGET = 15;
-        private static final int CASES = 16;
-        private static final int CALLS = 17;
-        private static final int CALL_COUNT = 18;
-        private static final int MAJOR = 19;
+        private static final int MAJOR = 15;
+        private static final int TARGET = 16;
+        private static final int CASES = 17;
+        // Of a constructor: which calls of its rec it brings, one for each recursive argument.
+        private static final int CALLS = 18;
+        private static final int CALL_COUNT = 19;
         private final Names names;
         private final Terms terms;
         private int[] rows = new int[ROW * 16];
@@ -1347,8 +1359,8 @@ public final class ProofDesk {
         private int place;
         private int subject;
         private int serial;
-        // The declaration: its word and where that stands, its name, its groups as binder, type and what the name of the
-        // binder meant before, its TERMs, and the names and TERMs of its constructors.
+        // The declaration: its word and where that stands, its name, its groups as binder, type and what the name of
+        // the binder meant before, its TERMs, and the names and TERMs of its constructors.
         private int word;
         private int start;
         private int name;
@@ -1463,8 +1475,8 @@ public final class ProofDesk {
             return true;
         }
 
-        /** Part i of the frame that was left last. */
-        private int left(int i) {
+        /** Part i of the frame that was closed last. */
+        private int closed(int i) {
             return frames.get(frames.count, i);
         }
 
@@ -1662,29 +1674,29 @@ public final class ProofDesk {
         private boolean endTerm() {
             switch (frames.take()) {
                 case IN_ARROW:
-                    term = terms.bind(ALL, terms.binder(NAMELESS), left(1), term, terms.place(left(1)));
+                    term = terms.bind(ALL, terms.binder(NAMELESS), closed(1), term, terms.place(closed(1)));
                     return false;
                 case IN_BRACKETS:
                     if (lexer.token == COLON) {
-                        enter(IN_CAST, left(1), left(2), term, NONE);
+                        enter(IN_CAST, closed(1), closed(2), term, NONE);
                         return true;
                     }
                     return closeAtom(term);
-                case IN_CAST: return closeAtom(terms.cast(left(3), term, left(2)));
+                case IN_CAST: return closeAtom(terms.cast(closed(3), term, closed(2)));
                 case IN_NAMES: return closeBinders();
                 case IN_GROUP:
                     frames.count++;
                     return passes(CLOSING, END_GROUP);
                 case IN_BODY: return closeBody();
                 case IN_LET_TYPE:
-                    enter(IN_LET_VALUE, left(1), left(2), term, NONE);
+                    enter(IN_LET_VALUE, closed(1), closed(2), term, NONE);
                     return passes(BECOMES, BEGIN_TERM);
                 case IN_LET_VALUE: return closeLetValue();
                 case IN_LET_BODY: return closeLet();
                 case IN_OWN_GROUP:
-                    bindWaiting(left(4), term);
+                    bindWaiting(closed(4), term);
                     return passes(CLOSING, READ_OWN_GROUPS);
-                default: return endOwnTerm(left(0));
+                default: return endOwnTerm(closed(0));
             }
         }
 
@@ -1693,7 +1705,7 @@ public final class ProofDesk {
                 return fails();
             }
             depth--;
-            application = left(1);
+            application = closed(1);
             attach(atom);
             return true;
         }
@@ -1704,25 +1716,25 @@ public final class ProofDesk {
             if (lexer.token != OPENING) {
                 return closeBinders();
             }
-            bindWaiting(left(4), term);
+            bindWaiting(closed(4), term);
             frames.count++;
             mode = READ_NAME;
             return true;
         }
 
         private boolean closeBinders() {
-            if (lexer.token != (left(1) == FUN ? DOUBLE_ARROW : COMMA)) {
+            if (lexer.token != (closed(1) == FUN ? DOUBLE_ARROW : COMMA)) {
                 return fails();
             }
             depth--;
-            bindWaiting(left(4), term);
-            enter(IN_BODY, left(1), left(2), left(3), NONE);
+            bindWaiting(closed(4), term);
+            enter(IN_BODY, closed(1), closed(2), closed(3), NONE);
             return true;
         }
 
         private boolean closeBody() {
-            for (int i = bound.count - 1; i >= left(3); i--) {
-                term = terms.bind(left(1), bound.get(i, 0), bound.get(i, 1), term, left(2));
+            for (int i = bound.count - 1; i >= closed(3); i--) {
+                term = terms.bind(closed(1), bound.get(i, 0), bound.get(i, 1), term, closed(2));
                 unbindLast();
             }
             return false;
@@ -1733,14 +1745,14 @@ public final class ProofDesk {
                 return fails();
             }
             depth--;
-            bindName(terms.binder(left(1)), term);
-            enter(IN_LET_BODY, NONE, left(2), left(3), NONE);
+            bindName(terms.binder(closed(1)), term);
+            enter(IN_LET_BODY, NONE, closed(2), closed(3), NONE);
             return true;
         }
 
         private boolean closeLet() {
             int last = bound.count - 1;
-            term = terms.let(bound.get(last, 0), left(3), bound.get(last, 1), term, left(2));
+            term = terms.let(bound.get(last, 0), closed(3), bound.get(last, 1), term, closed(2));
             unbindLast();
             return false;
         }
@@ -2035,7 +2047,7 @@ public final class ProofDesk {
             mode = REDUCE;
         }
 
-        /** The scope in which the calls of a rec stand: it, its parameters, its motive and its parts for constructors. */
+        /** The scope in which the calls of a rec stand: it, its parameters, its motive, its parts for constructors. */
         private int scopeOfRec(int rec, int list) {
             int family = terms.ref(rec);
             int head = shelf.get(family, Shelf.HEAD);
@@ -2499,7 +2511,8 @@ public final class ProofDesk {
         private int inGroups(int kind, int body) {
             int term = body;
             for (int i = declaration.bound.count - 1; i >= 0; i--) {
-                term = terms.bind(kind, declaration.bound.get(i, 0), declaration.bound.get(i, 1), term, declaration.start);
+                int type = declaration.bound.get(i, 1);
+                term = terms.bind(kind, declaration.bound.get(i, 0), type, term, declaration.start);
             }
             return term;
         }
@@ -2507,10 +2520,7 @@ public final class ProofDesk {
         private void perform() {
             int subject = typer.subject;
             switch (typer.task) {
-                case FIT_VALUE:
-                    int type = typer.take();
-                    typer.needFit(type, typer.latest(), declaration.value);
-                    break;
+                case FIT_VALUE: fitValue(typer.take()); break;
                 case STORE: store(subject); break;
                 case PARAMETER: addParameter(subject); break;
                 case SHAPE: needFamilyShape(); break;
@@ -2521,6 +2531,10 @@ public final class ProofDesk {
                 case BE_POSITIVE: needPositive(subject, typer.object); break;
                 default: storeConstructor(subject); break;
             }
+        }
+
+        private void fitValue(int type) {
+            typer.needFit(type, typer.latest(), declaration.value);
         }
 
         private void store(int value) {
