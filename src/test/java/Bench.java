@@ -34,7 +34,7 @@ final class Bench {
             case 0: return "accepted " + desk.verdict(k, 3);
             case 1: return "refused " + desk.verdict(k, 1) + " at " + desk.verdict(k, 2);
             case 2: return "out";
-            case 3: return "unreadable at " + desk.verdict(k, 2);
+            case 3: return "unreadable at " + desk.verdict(k, 2) + (desk.verdict(k, 1) == 0 ? "" : " with a reason");
             default: return "none";
         }
     }

@@ -161,6 +161,10 @@ public final class DataTest {
                 + "(s (rec nat Type0 (fun x: nat => nat) x (fun p: nat => fun r: nat => s r) x)) (g x)/");
         Bench.due("too few parts stay", bench.verdicts("norm rec nat Type (fun x: nat => nat) z.") + " " + bench.paper(),
                 "accepted 66 rec nat Type0 (fun x: nat => nat) z/");
+        bench.end("data tree: Type | tip: nat -> tree | fork: tree -> nat -> tree -> tree.");
+        Bench.due("two calls", bench.verdicts("norm rec tree Type (fun t: tree => tree) (fun n: nat => tip (s n))"
+                + " (fun (t: tree) (n: nat) (u q r: tree) => fork r n q) (fork (fork (tip z) (s z) (tip (s z))) z (tip (s (s z)))).")
+                + " " + bench.paper(), "accepted 304 fork (tip (s (s (s z)))) z (fork (tip (s (s z))) (s z) (tip (s z)))/");
         bench.end("data eq (A: Type) (a: A): A -> Prop | refl: eq A a a. axiom h: eq nat z (s z).");
         Bench.due("rec into Type of a Prop", bench.verdicts("norm rec eq Type nat z (fun (x: nat) (e: eq nat z x) => nat) (s z) z (refl nat z).")
                 + " " + bench.paper(), "accepted 280 s z/");

@@ -58,6 +58,18 @@ public final class FaceTest {
         Bench.due("a text is cut", bench.desk.end(20), 2);
         Bench.due("its fault is its end", bench.verdict(1), "unreadable at 20");
         Bench.due("what was cut is gone", bench.desk.find(1), -1);
+        bench.feed("check abc. -- abc");
+        Bench.due("a name is cut", bench.desk.end(7), 1);
+        Bench.due("the fault is where it is cut", bench.verdict(0), "unreadable at 7");
+        bench.feed("check a. -- abc");
+        Bench.due("a remark is cut", bench.desk.end(13), 1);
+        bench.feed("check a := b.");
+        Bench.due("a sign is cut", bench.desk.end(9), 1);
+        Bench.due("so it is another one", bench.verdict(0), "unreadable at 9");
+        bench.feed("norm Type12. {--}");
+        Bench.due("a sort is cut", bench.desk.end(10), 1);
+        bench.feed("check a. {--}   ");
+        Bench.due("the end of a remark is cut", bench.desk.end(12), 2);
         Bench.due("an empty text", bench.desk.end(0), 0);
         Bench.due("has no verdicts", bench.desk.verdict(0, 0), -1);
         Bench.due("blanks alone", bench.end(" \t\r\n -- nothing"), 0);

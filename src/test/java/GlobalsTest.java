@@ -54,6 +54,9 @@ public final class GlobalsTest {
         Bench.due("all bytes are gone then too", bench.desk.find(1), -1);
         bench.feed("one");
         Bench.due("the first n bytes alone", bench.desk.find(2), -1);
+        bench.end("axiom name_of_twenty_bytes: A. axiom name_of_20_bytes_xxx: A.");
+        bench.feed("name_of_20_bytes_xxx");
+        Bench.due("all bytes are the name", bench.desk.find(20), 9);
     }
 
     private static void about() {
@@ -136,7 +139,18 @@ public final class GlobalsTest {
         Bench.due("numbers too", bench.find("s"), 4);
         bench.desk.tear();
         Bench.due("shown", bench.shown("z"), "s -> s/");
-        Bench.due("verdicts and paper stay", bench.desk.forget(0), 7);
+        bench.end("axiom R: A -> A -> Prop. axiom t (u v: A): R u v -> all w: A, R w u. def k (p q: A) (h: R p q) := h."
+                + " data W (P: A -> Prop): Type | w: all a: A, P a -> (all b: A, W P) -> W P.");
+        Bench.due("forget(9)", bench.desk.forget(9), 3);
+        bench.end("def k (m n: A) (o: R m n) := o. def j (r: A) := fun s: R r r => s. data V: A -> Prop | v: all c: A, V c.");
+        bench.desk.tear();
+        Bench.due("what was before is as it was", bench.shown("t"), "all u: A, all v: A, R u v -> all w: A, R w u/");
+        Bench.due("what came again", bench.shown("k"), "all m: A, all n: A, R m n -> R m n/");
+        Bench.due("what came new", bench.shown("j"), "all r: A, R r r -> R r r/");
+        Bench.due("and its rec", bench.verdicts("check rec V Prop.") + " " + bench.paper(), "accepted 29 "
+                + "all M: all x: A, V x -> Prop, (all c: A, M c (v c)) -> all x: A, all x1: V x, M x x1/");
+        bench.end("norm z (z nat). norm z (z nat).");
+        Bench.due("verdicts and paper stay", bench.desk.forget(0), 13);
         Bench.due("verdict stays", bench.verdict(1), "accepted 16");
         Bench.due("nothing is left", bench.desk.globals(), 0);
         Bench.due("a new start", bench.verdicts("axiom A: Prop. def a: Prop := A -> A. norm a."), "accepted 1; accepted 4; accepted 5");

@@ -39,6 +39,8 @@ public final class PrintTest {
                 "fun f: (all M: D -> Type1, M d -> all x: D, M x) -> A => f rec D Type1/");
         prints("norm rec D Prop (fun e: D => all p: Prop, p -> p) (fun (p: Prop) (h: p) => h).",
                 "rec D Prop (fun e: D => all p: Prop, p -> p) (fun p: Prop => fun h: p => h)/");
+        prints("norm Type9. norm Type99.", "refused 6 at 17");
+        prints("norm Type8. norm Type9. norm Type11. norm Type98.", "Type8/Type9/Type11/Type98/");
         prints("norm Type. norm Type0. norm Type10. check Prop. check Type9.", "Type0/Type0/Type10/Type0/Type10/");
     }
 
@@ -74,6 +76,11 @@ public final class PrintTest {
                 "fun x: A => fun x1: A => fun x11: A => g x (g x1 x11)/");
         prints("norm fun x12: A => (fun u x1: A => (fun v x: A => (fun w x: A => g (g u v) (g w x)) x) x1) x12.",
                 "fun x12: A => fun x1: A => fun x: A => fun x2: A => g (g x12 x1) (g x x2)/");
+        prints("axiom x3: A. axiom x4: A. axiom x5: A. axiom x6: A. axiom x7: A. axiom x8: A. axiom x9: A."
+                + " norm (fun (u v: A) (x: A) => g u (g v (g (g (g x1 x2) (g x3 x4)) (g (g x5 x6) (g x7 (g x8 x)))))) x x9."
+                + " norm (fun (u: A) (x: A) => g u (g (g (g x1 x2) (g x3 x4)) (g (g x5 x6) (g x7 (g x8 x))))) x.",
+                "fun x10: A => g x (g x9 (g (g (g x1 x2) (g x3 x4)) (g (g x5 x6) (g x7 (g x8 x10)))))"
+                + "/fun x9: A => g x (g (g (g x1 x2) (g x3 x4)) (g (g x5 x6) (g x7 (g x8 x9))))/");
         prints("norm fun x01: A => (fun u x0: A => g u x0) x01.", "fun x01: A => fun x0: A => g x01 x0/");
         prints("norm all P: A -> A -> Prop, all x: A, (fun u: A => all x: A, P u x) x.",
                 "all P: A -> A -> Prop, all x: A, all x1: A, P x x1/");

@@ -116,6 +116,12 @@ public final class TermTest {
         same(NAT + ax, "check (fun x y: nat => y: all u v: nat, nat).", "accepted 13 nat -> nat -> nat/");
         same(NAT + ax, "check p: Type. check p: Type7. check Type: Type. check Type: Type1.",
                 "accepted 2; accepted 2; refused 5 at 37; accepted 1");
+        // One declaration behind the other, with other variables each time.
+        same(NAT + ax, "check fun (P: nat -> Prop) (h: all x: nat, P x) => (h: all y: nat, P y)."
+                + " check fun (a b c d e: nat) (P: nat -> Prop) (h: P a) => (h: P a)."
+                + " check fun (a b c d e: nat) (P: nat -> Prop) (h: P a) => (h: P b).",
+                "accepted 36; accepted 32; refused 5 at 196 all P: nat -> Prop, (all x: nat, P x) -> all y: nat, P y"
+                + "/all a: nat, nat -> nat -> nat -> nat -> all P: nat -> Prop, P a -> P a/");
         same(NAT, "check fun (P: nat -> nat -> Prop) (h: all x y: nat, P x y) => (h: all y x: nat, P x y).",
                 "refused 5 at 63");
         same(NAT, "check fun (P: nat -> nat -> Prop) (h: all x y: nat, P x y) => (h: all y x: nat, P y x).",

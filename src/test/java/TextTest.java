@@ -39,6 +39,17 @@ public final class TextTest {
         same("check Type100.", "refused 1 at 6");
         same("check Type1'.", "refused 1 at 6");
         same("check Props.", "refused 1 at 6");
+        same("check Xype1.check Txpe1.check Tyxe1.check Typx1.check TypeX.check Type1X.",
+                "refused 1 at 6; refused 1 at 18; refused 1 at 30; refused 1 at 42; refused 1 at 54; refused 1 at 66");
+        same("axiom azAZ09_': Prop.check azAZ09_'.axiom ZzAa90: Prop.axiom z: Prop.axiom Z: Prop.",
+                "accepted 1; accepted 1; accepted 1; accepted 1; accepted 1");
+        same("check [.", "unreadable at 6");
+        same("check @.", "unreadable at 6");
+        same("check `.", "unreadable at 6");
+        same("check {.", "unreadable at 6");
+        same("check /.", "unreadable at 6");
+        same("check a\u000b.", "unreadable at 7");
+        same("check a\u00e9.", "unreadable at 7");
         same("check inn.", "refused 1 at 6");
         same("check in.", "unreadable at 6");
         same("check 'a.", "unreadable at 6");
@@ -59,6 +70,8 @@ public final class TextTest {
         same("a", "unreadable at 0");
         same(".", "unreadable at 0");
         same("check a", "unreadable at 7");
+        same("check q -> (", "unreadable at 12");
+        same("axiom a (", "unreadable at 9");
         same("check a. check", "accepted 1; unreadable at 14");
         same("check a. check  ", "accepted 1; unreadable at 16");
         same("check .", "unreadable at 6");
@@ -128,6 +141,12 @@ public final class TextTest {
         same("check " + "(".repeat(99) + "a: Prop" + ")".repeat(99) + ".", "accepted 2");
         same("axiom b (x: " + "(".repeat(99) + "a" + ")".repeat(99) + "): a.", "accepted 6");
         same("check " + "a -> ".repeat(300) + "a.", "accepted 601");
+        same("check " + "let x := (a) in ".repeat(150) + "(a).", "accepted 151");
+        same("check " + "let x: (Prop) := (a) in ".repeat(150) + "(a).", "accepted 301");
+        same("check " + "fun x: (Prop) => ".repeat(150) + "(a).", "accepted 151");
+        same("check " + "all (x: (Prop)) (y: Prop), ".repeat(150) + "(a).", "accepted 301");
+        same("check f" + " (a)".repeat(2) + ".", "accepted 11");
+        same("check " + "(a) -> ".repeat(150) + "(a: Prop).", "accepted 302");
     }
 
     private static void names() {
