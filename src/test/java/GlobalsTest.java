@@ -28,6 +28,11 @@ public final class GlobalsTest {
         bench.end("data D: Type | c: D | e: z.");
         Bench.due("a data that is refused brings none", bench.desk.globals(), 9);
         Bench.due("nor its name", bench.find("D"), -1);
+        bench.end("axiom r (D: Type): D -> Type.");
+        bench.end("data D: Type | c: D | e: z.");
+        Bench.due("nor a name that was known", bench.find("D"), -1);
+        bench.end("data D: Type | c: D | ");
+        Bench.due("nor when it is unreadable", bench.verdicts("check D."), "refused 1 at 6");
     }
 
     private static void find() {
@@ -149,8 +154,15 @@ public final class GlobalsTest {
         Bench.due("what came new", bench.shown("j"), "all r: A, R r r -> R r r/");
         Bench.due("and its rec", bench.verdicts("check rec V Prop.") + " " + bench.paper(), "accepted 29 "
                 + "all M: all x: A, V x -> Prop, (all c: A, M c (v c)) -> all x: A, all x1: V x, M x x1/");
+        bench.end("def twice (n: s): s := rec s Type (fun m: s => s) nat (fun p r: s => z (z r)) n."
+                + " data T: Type | tip: T | fork: T -> T -> T.");
+        Bench.due("a family with calls goes", bench.desk.forget(14), 3);
+        bench.end("data U: Type | u: U | uu: U -> U -> U. norm twice (z (z nat)).");
+        Bench.due("the calls of others stay", bench.paper(), "z (z (z (z nat)))/");
+        bench.end("norm rec U Type (fun v: U => s) nat (fun (v w: U) (p q: s) => z q) (uu u (uu u u)).");
+        Bench.due("and its own are right", bench.paper(), "z (z nat)/");
         bench.end("norm z (z nat). norm z (z nat).");
-        Bench.due("verdicts and paper stay", bench.desk.forget(0), 13);
+        Bench.due("verdicts and paper stay", bench.desk.forget(0), 17);
         Bench.due("verdict stays", bench.verdict(1), "accepted 16");
         Bench.due("nothing is left", bench.desk.globals(), 0);
         Bench.due("a new start", bench.verdicts("axiom A: Prop. def a: Prop := A -> A. norm a."), "accepted 1; accepted 4; accepted 5");

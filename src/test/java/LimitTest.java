@@ -56,6 +56,16 @@ public final class LimitTest {
         Bench.due("a type and its value, (T : U) being T", bench.verdicts("def c2 := (Prop: Type1)."), "refused 13 at 0");
         Bench.due("forget more", bench.desk.forget(11), 1);
         Bench.due("now it has room", bench.verdicts("def c2 := (Prop: Type1)."), "accepted 1");
+        Bench.due("forget to have 3 left", bench.desk.forget(11), 1);
+        Bench.due("then 10", bench.desk.forget(10), 1);
+        Bench.due("6 of them", bench.verdicts("def c3: Prop := all x: Prop, x. axiom c4: Prop. axiom c5: Prop."),
+                "accepted 3; accepted 1; accepted 1");
+        Bench.due("a let without a type and its type: 4", bench.verdicts("def c6 := let x := Prop in x."), "accepted 1");
+        Bench.due("forget it", bench.desk.forget(13), 1);
+        Bench.due("a let with a type and its type: 5", bench.verdicts("def c6 := let x: Type := Prop in x."), "refused 13 at 0");
+        Bench.due("forget one more", bench.desk.forget(12), 1);
+        Bench.due("now the let has room", bench.verdicts("def c6 := let x: Type := Prop in x."), "accepted 2");
+        Bench.due("and nothing more", bench.verdicts("axiom c7: Prop."), "refused 13 at 0");
     }
 
     private static void sharedTypes() {

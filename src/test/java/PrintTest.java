@@ -78,8 +78,10 @@ public final class PrintTest {
                 "fun x12: A => fun x1: A => fun x: A => fun x2: A => g (g x12 x1) (g x x2)/");
         prints("axiom x3: A. axiom x4: A. axiom x5: A. axiom x6: A. axiom x7: A. axiom x8: A. axiom x9: A."
                 + " norm (fun (u v: A) (x: A) => g u (g v (g (g (g x1 x2) (g x3 x4)) (g (g x5 x6) (g x7 (g x8 x)))))) x x9."
+                + " axiom x10: A. norm (fun (u v: A) (x: A) => g x10 (g v (g (g (g x1 x2) (g x3 x4)) (g (g x5 x6) (g x7 (g x8 (g u x))))))) x x9."
                 + " norm (fun (u: A) (x: A) => g u (g (g (g x1 x2) (g x3 x4)) (g (g x5 x6) (g x7 (g x8 x))))) x.",
                 "fun x10: A => g x (g x9 (g (g (g x1 x2) (g x3 x4)) (g (g x5 x6) (g x7 (g x8 x10)))))"
+                + "/fun x11: A => g x10 (g x9 (g (g (g x1 x2) (g x3 x4)) (g (g x5 x6) (g x7 (g x8 (g x x11))))))"
                 + "/fun x9: A => g x (g (g (g x1 x2) (g x3 x4)) (g (g x5 x6) (g x7 (g x8 x9))))/");
         prints("norm fun x01: A => (fun u x0: A => g u x0) x01.", "fun x01: A => fun x0: A => g x01 x0/");
         prints("norm all P: A -> A -> Prop, all x: A, (fun u: A => all x: A, P u x) x.",

@@ -116,6 +116,15 @@ public final class TermTest {
         same(NAT + ax, "check (fun x y: nat => y: all u v: nat, nat).", "accepted 13 nat -> nat -> nat/");
         same(NAT + ax, "check p: Type. check p: Type7. check Type: Type. check Type: Type1.",
                 "accepted 2; accepted 2; refused 5 at 37; accepted 1");
+        same(NAT, "check fun (P Q: nat -> Prop) (h: P z) => (h: Q z).", "refused 5 at 42");
+        same(NAT, "check fun (P: nat -> Prop) (h: P z) => (h: P (s z)).", "refused 5 at 40");
+        same(NAT, "check fun (P: nat -> Prop) (n: nat) (h: P (rec nat Type (fun x: nat => nat) z (fun p r: nat => p) n)) =>"
+                + " (h: P (rec nat Type1 (fun x: nat => nat) z (fun p r: nat => p) n)).", "refused 5 at 106");
+        same(NAT, "check fun (P: (nat -> nat) -> Prop) (h: P (fun n: nat => n)) => (h: P (fun m: nat => z)).", "refused 5 at 65");
+        same(NAT, "check fun (P: Type2 -> Prop) (h: P Type) => (h: P Type1).", "refused 5 at 45");
+        same(NAT, "check fun (P: Type2 -> Prop) (h: P (nat -> Prop)) => (h: P (nat -> Type)).", "refused 5 at 54");
+        same(NAT, "check fun (h: nat -> Prop) => (h: nat -> Type). check fun (h: Type -> nat) => (h: Prop -> nat).",
+                "accepted 13; refused 5 at 79 (nat -> Prop) -> nat -> Type0/");
         // One declaration behind the other, with other variables each time.
         same(NAT + ax, "check fun (P: nat -> Prop) (h: all x: nat, P x) => (h: all y: nat, P y)."
                 + " check fun (a b c d e: nat) (P: nat -> Prop) (h: P a) => (h: P a)."
