@@ -83,6 +83,8 @@ public final class PrintTest {
                 "fun x10: A => g x (g x9 (g (g (g x1 x2) (g x3 x4)) (g (g x5 x6) (g x7 (g x8 x10)))))"
                 + "/fun x11: A => g x10 (g x9 (g (g (g x1 x2) (g x3 x4)) (g (g x5 x6) (g x7 (g x8 (g x x11))))))"
                 + "/fun x9: A => g x (g (g (g x1 x2) (g x3 x4)) (g (g x5 x6) (g x7 (g x8 x9))))/");
+        prints("norm fun x': A => (fun u x: A => g u x) x'.", "fun x': A => fun x: A => g x' x/");
+        prints("norm fun xx: A => (fun u x: A => g u x) xx.", "fun xx: A => fun x: A => g xx x/");
         prints("norm fun x01: A => (fun u x0: A => g u x0) x01.", "fun x01: A => fun x0: A => g x01 x0/");
         prints("norm all P: A -> A -> Prop, all x: A, (fun u: A => all x: A, P u x) x.",
                 "all P: A -> A -> Prop, all x: A, all x1: A, P x x1/");

@@ -20,6 +20,9 @@ public final class TextTest {
         same("check a.-- check b.\ncheck a.", "accepted 1; accepted 1");
         same("check -- {- \na.", "accepted 1");
         same("check {- -- -} a.", "accepted 1");
+        same("check a.{- -}", "accepted 1");
+        same("check a.{--}", "accepted 1");
+        same("check a.{-}", "accepted 1; unreadable at 8");
         same("{-{--}-}check{-x-}a{--}.", "accepted 1");
         same("{-}check a.-}check a.", "accepted 1");
         same("check a. {- {- -}", "accepted 1; unreadable at 9");
