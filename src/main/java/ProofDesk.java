@@ -583,13 +583,11 @@ public final class ProofDesk {
             while (at < length && (isLetter(text[at]) || isDigit(text[at]) || text[at] == '\'')) {
                 at++;
             }
-            level = sortLevel();
+            int word = wordNumber();
+            level = sortLevel(word);
             if (level != NONE) {
                 token = SORT_WORD;
-                return;
-            }
-            int word = wordNumber();
-            if (word != NONE) {
+            } else if (word != NONE) {
                 token = word;
             } else if (at - start > LONGEST_NAME) {
                 token = NO_TOKEN;
@@ -619,12 +617,11 @@ public final class ProofDesk {
             return NONE;
         }
 
-        private int sortLevel() {
-            int size = at - start;
-            if (size == 4) {
-                int word = wordNumber();
+        private int sortLevel(int word) {
+            if (word != NONE) {
                 return word == WORD_PROP ? PROP : word == WORD_TYPE ? TYPE_0 : NONE;
             }
+            int size = at - start;
             if (size < 5 || size > 6 || text[start] != 'T' || text[start + 1] != 'y'
                     || text[start + 2] != 'p' || text[start + 3] != 'e' || !isDigit(text[start + 4])) {
                 return NONE;
@@ -2743,7 +2740,7 @@ public final class ProofDesk {
             int before = length;
             full = false;
             survey(root);
-            Arrays.fill(scopes, NONE);
+            Arrays.fill(scopes, 0, terms.binders, NONE);
             binderCount = 0;
             tasks.add(WHOLE, root, NONE);
             for (int left = MANY; left > 0 && tasks.count > 0 && !full; left--) {
