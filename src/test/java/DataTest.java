@@ -91,13 +91,13 @@ public final class DataTest {
         same("data D: nat -> Type | c: z -> D Prop.", "refused 3 at 25");
         Bench bench = new Bench();
         bench.end(NAT);
-        bench.desk.fuel(1);
+        bench.fuel(1);
         // The sort is looked at before the normal form of the argument is made.
         Bench.due("10 before the fuel", bench.verdicts("data D: Type | c: Type -> D."), "refused 10 at 18");
         Bench.due("7 behind the fuel", bench.verdicts("data D: Type | c: (D -> nat) -> D."), "out");
         Bench.due("9 before", bench.verdicts("data D: nat -> z."), "refused 9 at 8");
         Bench.due("9 behind the groups", bench.verdicts("data D (A: Type) (a: A): z."), "out");
-        Bench.due("nothing came", bench.desk.globals(), 3);
+        Bench.due("nothing came", bench.globals(), 3);
     }
 
     private static void families() {
@@ -120,9 +120,9 @@ public final class DataTest {
         Bench.due("vec shown", bench.shown("vec"), "Type0 -> nat -> nat -> nat -> nat -> Type0/");
         Bench.due("cons shown", bench.shown("cons"), "all A: Type0, all n: nat, all k: nat, "
                 + "A -> A -> all i: nat, vec A n k i (s i) -> vec A n k (s i) z/");
-        bench.desk.fuel(10000);
+        bench.fuel(10000);
         bench.end("check rec vec Type3.");
-        Bench.due("rec vec", bench.paper(), "all A: Type0, all n: nat, all k: nat, "
+        Bench.due("rec vec", bench.torn(), "all A: Type0, all n: nat, all k: nat, "
                 + "all M: all x: nat, all m: nat, vec A n k x m -> Type3, M z z (nil A n k) -> "
                 + "(all x: A, all y: A, all i: nat, all x1: vec A n k i (s i), M i (s i) x1 -> "
                 + "M (s i) z (cons A n k x y i x1)) -> all x: nat, all m: nat, all x1: vec A n k x m, M x m x1/");
@@ -132,14 +132,14 @@ public final class DataTest {
         int g = bench.find(name);
         StringBuilder all = new StringBuilder();
         for (int what = 0; what < 6; what++) {
-            all.append(what == 0 ? "" : " ").append(bench.desk.about(g, what));
+            all.append(what == 0 ? "" : " ").append(bench.about(g, what));
         }
         return all.toString();
     }
 
     private static void reckoning() {
         Bench bench = new Bench();
-        bench.desk.fuel(10000);
+        bench.fuel(10000);
         bench.end(NAT + "def add (n m: nat): nat := rec nat Type (fun x: nat => nat) m (fun p r: nat => s r) n.");
         // A call's indices Js depend on the parameters, on arguments before, and on ys.
         bench.end("data T (A: Type) (k: A -> nat): nat -> Type | leaf: all n: nat, T A k n"
@@ -148,27 +148,27 @@ public final class DataTest {
                 + " (fun n: nat => n) (fun (n: nat) (a: A) (f: all y: A, T A k (add (k y) n)) (r: A -> nat) => add n (r a)) i t.");
         Bench.due("sum is a def", bench.verdict(0).substring(0, 8), "accepted");
         Bench.due("sum", bench.verdicts("norm sum nat s (s (s z)) (node nat s (s z) (s z) (fun y: nat => leaf nat s (add (s y) (s z)))).")
-                + " " + bench.paper(), "accepted 624 s (s (s (s z)))/");
+                + " " + bench.torn(), "accepted 624 s (s (s (s z)))/");
         Bench.due("a call that stays", bench.verdicts("norm fun (x: nat) (g: all y: nat, T nat s (add (s y) x)) =>"
                 + " rec T Type nat s (fun (n: nat) (t: T nat s n) => nat -> nat) (fun (n y: nat) => y)"
                 + " (fun (n a: nat) (f: all y: nat, T nat s (add (s y) n)) (r: nat -> nat -> nat) => r n) (s x) (node nat s x x g)."), "accepted 1455");
-        Bench.due("its paper", bench.paper(), "fun x: nat => fun g: all y: nat, "
+        Bench.due("its paper", bench.torn(), "fun x: nat => fun g: all y: nat, "
                 + "T nat s (s (rec nat Type0 (fun x: nat => nat) x (fun p: nat => fun r: nat => s r) y)) => "
                 + "rec T Type0 nat s (fun n: nat => fun t: T nat s n => nat -> nat) (fun n: nat => fun y: nat => y) "
                 + "(fun n: nat => fun a: nat => fun f: all y: nat, "
                 + "T nat s (s (rec nat Type0 (fun x: nat => nat) n (fun p: nat => fun r: nat => s r) y)) => "
                 + "fun r: nat -> nat -> nat => r n) "
                 + "(s (rec nat Type0 (fun x: nat => nat) x (fun p: nat => fun r: nat => s r) x)) (g x)/");
-        Bench.due("too few parts stay", bench.verdicts("norm rec nat Type (fun x: nat => nat) z.") + " " + bench.paper(),
+        Bench.due("too few parts stay", bench.verdicts("norm rec nat Type (fun x: nat => nat) z.") + " " + bench.torn(),
                 "accepted 66 rec nat Type0 (fun x: nat => nat) z/");
         bench.end("data tree: Type | tip: nat -> tree | fork: tree -> nat -> tree -> tree.");
         Bench.due("two calls", bench.verdicts("norm rec tree Type (fun t: tree => tree) (fun n: nat => tip (s n))"
                 + " (fun (t: tree) (n: nat) (u q r: tree) => fork r n q) (fork (fork (tip z) (s z) (tip (s z))) z (tip (s (s z)))).")
-                + " " + bench.paper(), "accepted 304 fork (tip (s (s (s z)))) z (fork (tip (s (s z))) (s z) (tip (s z)))/");
+                + " " + bench.torn(), "accepted 304 fork (tip (s (s (s z)))) z (fork (tip (s (s z))) (s z) (tip (s z)))/");
         bench.end("data eq (A: Type) (a: A): A -> Prop | refl: eq A a a. axiom h: eq nat z (s z).");
         Bench.due("rec into Type of a Prop", bench.verdicts("norm rec eq Type nat z (fun (x: nat) (e: eq nat z x) => nat) (s z) z (refl nat z).")
-                + " " + bench.paper(), "accepted 280 s z/");
+                + " " + bench.torn(), "accepted 280 s z/");
         Bench.due("stuck on an axiom", bench.verdicts("norm rec eq Type nat z (fun (x: nat) (e: eq nat z x) => nat) (s z) (s z) h.")
-                + " " + bench.paper(), "accepted 286 rec eq Type0 nat z (fun x: nat => fun e: eq nat z x => nat) (s z) (s z) h/");
+                + " " + bench.torn(), "accepted 286 rec eq Type0 nat z (fun x: nat => fun e: eq nat z x => nat) (s z) (s z) h/");
     }
 }

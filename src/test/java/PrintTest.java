@@ -13,11 +13,11 @@ public final class PrintTest {
 
     private static void prints(String text, String want) {
         Bench bench = new Bench();
-        bench.desk.fuel(10000);
+        bench.fuel(10000);
         bench.end(BASE);
         int count = bench.end(text);
-        String paper = bench.paper();
-        Bench.due(text, bench.desk.verdict(count - 1, 0) == 0 ? paper : bench.verdict(count - 1), want);
+        String paper = bench.torn();
+        Bench.due(text, bench.verdict(count - 1, 0) == 0 ? paper : bench.verdict(count - 1), want);
     }
 
     private static void brackets() {

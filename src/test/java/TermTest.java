@@ -16,11 +16,11 @@ public final class TermTest {
     /** The verdict and, if something was printed, the paper behind it. */
     private static void same(String before, String text, String want) {
         Bench bench = new Bench();
-        bench.desk.fuel(10000);
+        bench.fuel(10000);
         bench.end(before);
-        bench.desk.tear();
+        bench.tear();
         String verdicts = bench.verdicts(text);
-        String paper = bench.paper();
+        String paper = bench.torn();
         Bench.due(text, paper.isEmpty() ? verdicts : verdicts + " " + paper, want);
     }
 
