@@ -25,6 +25,7 @@ public final class CallBoundsTest {
         leansBounds();
         showBounds();
         forgetBounds();
+        forgetWhereOthersWere();
         forgetLeaves();
         Bench.close("CallBoundsTest");
     }
@@ -445,6 +446,22 @@ public final class CallBoundsTest {
         Bench.due("forget(0)", bench.forget(0), 2);
         Bench.due("forget(0) of none", bench.forget(0), 0);
         refuses(bench, "forget(1) of none", () -> bench.forget(1));
+    }
+
+    private static void forgetWhereOthersWere() {
+        // What stands at a number now counts, not what stood there before.
+        Bench bench = filled();
+        bench.forget(2);
+        bench.end("axiom b: A.");
+        Bench.due("forget(3) of 3, where a constructor was", bench.forget(3), 0);
+        refuses(bench, "show(3), where a constructor was", () -> bench.show(3));
+        Bench.due("forget(2) of 3", bench.forget(2), 1);
+        bench.end("axiom b: A. axiom c: A.");
+        Bench.due("forget(3) of 4, where a constructor was", bench.forget(3), 1);
+        bench.end("data D: Prop | d: D.");
+        refuses(bench, "forget(4), a new constructor", () -> bench.forget(4));
+        Bench.due("forget(3), its family", bench.forget(3), 2);
+        Bench.due("globals()", bench.globals(), 3);
     }
 
     private static void forgetLeaves() {

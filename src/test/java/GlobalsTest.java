@@ -109,6 +109,33 @@ public final class GlobalsTest {
             }
             Bench.due(names[i] + " leans on", got.toString(), want[i]);
         }
+        // In the type that a let tells, in that of a fun, in a value that is dropped; not in the U of (T : U).
+        Bench kept = new Bench();
+        kept.end("axiom A: Type. axiom B: Type. axiom C: Type. axiom D: Type. axiom a: A. def k (X Y: Type) := X."
+                + " def m := let x: k A B := a in x. def n := fun x: k A C => x. def o := k A D. def q := (a: k A B). lemma r: A := (fun x: Type => a) C."
+                + " axiom s: k A B. def t: k A B := a. def u := let x: A := (a: k A D) in let y: k A C := x in y.");
+        String[] kin = {"m ABak", "n ACk", "o ADk", "q Aa", "r ACa", "s A", "t Aa", "u ACak"};
+        for (String line : kin) {
+            StringBuilder got = new StringBuilder();
+            int g = kept.find(line.substring(0, 1));
+            for (char h : "ABCDak".toCharArray()) {
+                got.append(kept.leans(g, kept.find("" + h)) ? "" + h : "");
+            }
+            Bench.due(line.charAt(0) + " leans on", got.toString(), line.substring(2));
+        }
+        // By way of one global alone, the only one, the first one or the last one.
+        Bench chain = new Bench();
+        chain.end("axiom A: Type. axiom B: A -> Type. data D: Type | d: A -> D. axiom e: D. axiom f: D -> Prop. lemma g: Type := D. axiom P: D -> D -> Prop."
+                + " axiom h: Prop -> D. axiom i: D -> Prop -> Prop. def j := e. axiom k: Prop. axiom l: k -> k.");
+        String[] onA = {"B", "D", "d", "e", "f", "g", "P", "h", "i", "j"};
+        for (String name : onA) {
+            Bench.due(name + " leans on A", chain.leans(chain.find(name), 0), true);
+        }
+        Bench.due("j leans on D, as e does", chain.leans(chain.find("j"), 2), true);
+        Bench.due("A does not lean on itself", chain.leans(0, 0), false);
+        Bench.due("D does", chain.leans(2, 2), true);
+        Bench.due("d leans on D, but not on itself", (chain.leans(3, 2) ? 1 : 0) + (chain.leans(3, 3) ? 2 : 0), 1);
+        Bench.due("l leans on k, but not on A", (chain.leans(12, 11) ? 1 : 0) + (chain.leans(12, 0) ? 2 : 0), 1);
         Bench.due("leans(-1, 0)", bench.leans(-1, 0), false);
         Bench.due("leans(1, -1)", bench.leans(1, -1), false);
         Bench.due("leans(1, 99)", bench.leans(1, 99), false);

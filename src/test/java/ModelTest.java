@@ -22,6 +22,7 @@ public final class ModelTest {
         "def cast (B C: Type) (e: eq Type B C) (b: B): C := b.",
         "def k (B C: Type) := fun (b: B) (c: C) => b.",
         "def vlen (T: Type) (n: N) (v: V T n): N := rec V Type T (fun (m: N) (w: V T m) => N) z (fun (m: N) (t: T) (w: V T m) (r: N) => s r) n v.",
+        "def K (X Y: Type) := X.", "def w := let t: K A N := a in (f t: K A O).", "axiom i: Type -> A.", "data J: A -> Type | j: J (i (J a)).", "check rec J Type.",
         "norm fun x: A => (fun y: A => fun x: A => g x y) x.",
         "norm add two (s two).", "check rec V Type.", "check rec W Prop.", "check rec X Type2.", "check add.", "norm fun n m: N => add (s n) m.",
         "norm rec W Type A (fun t: A => A) (fun w: W A (fun t: A => A) => N) (fun (t: A) (i: A -> W A (fun t: A => A)) (r: A -> N) => s (r t)).",
@@ -33,7 +34,9 @@ public final class ModelTest {
         "refl", "L", "nil", "M", "x1", "two", "add", "O", "-", "{-", "-}", "--", "\n", "#", "Type07"};
 
     public static void main(String[] args) throws InterruptedException {
+        // The model calls itself for each part of a term, so it needs much stack.
         Thread deep = new Thread(null, ModelTest::run, "deep", 1L << 29);
+        deep.setUncaughtExceptionHandler((thread, thrown) -> Bench.due("what was thrown", thrown.toString(), "nothing"));
         deep.start();
         deep.join();
         Bench.close("ModelTest");

@@ -86,6 +86,22 @@ public final class PrintTest {
         prints("norm fun x': A => (fun u x: A => g u x) x'.", "fun x': A => fun x: A => g x' x/");
         prints("norm fun xx: A => (fun u x: A => g u x) xx.", "fun xx: A => fun x: A => g xx x/");
         prints("norm fun x01: A => (fun u x0: A => g u x0) x01.", "fun x01: A => fun x0: A => g x01 x0/");
+        // A name of 40 bytes with a number has 41; the number is the least, and may have two digits.
+        String forty = "abcdefghijklmnopqrstuvwxyzABCDEFGHIJKLMN";
+        prints("norm fun " + forty + ": A => (fun u " + forty + ": A => g u " + forty + ") " + forty + ".",
+                "fun " + forty + ": A => fun " + forty + "1: A => g " + forty + " " + forty + "1/");
+        prints("axiom " + forty + ": A. norm (fun u " + forty + ": A => g u " + forty + ") " + forty + ".",
+                "fun " + forty + "1: A => g " + forty + " " + forty + "1/");
+        String less = forty.substring(1);
+        prints("axiom " + less + ": A. axiom " + less + "1: A. norm (fun u v " + less + ": A => g u (g v " + less + ")) " + less + " " + less + "1.",
+                "fun " + less + "2: A => g " + less + " (g " + less + "1 " + less + "2)/");
+        // The free variables are those of the fun or all, also those that are free in it under other ones.
+        prints("norm fun x: A => fun v: A => (fun u x: A => fun w: A => g u (g v x)) x.",
+                "fun x: A => fun v: A => fun x1: A => fun w: A => g x (g v x1)/");
+        prints("norm fun x: A => (fun u x: A => fun w: A => g w x) x.", "fun x: A => fun x: A => fun w: A => g w x/");
+        prints("norm fun x: A => (fun u x: A => fun x: A => g u x) x.", "fun x: A => fun x1: A => fun x1: A => g x x1/");
+        // An all whose variable is not in its last part has no name, so it takes none.
+        prints("norm fun P: A -> Prop => all x: A, (fun u: A => all x: A, P u) x.", "fun P: A -> Prop => all x: A, A -> P x/");
         prints("norm all P: A -> A -> Prop, all x: A, (fun u: A => all x: A, P u x) x.",
                 "all P: A -> A -> Prop, all x: A, all x1: A, P x x1/");
     }

@@ -425,6 +425,8 @@ public final class ReasonBoundsTest {
         // In no index, and put to the parameters themselves.
         same("axiom k: Type -> A. data D: A -> Type | c: D (k (D a)) -> D a.", "accepted 5; refused 7 at 43");
         same("axiom k: Type -> A. data D: A -> Type | c: D (k A) -> D a.", "accepted 5; accepted 27");
+        // In the indices of its own application D may stand.
+        same("axiom k: Type -> A. data D: A -> Type | c: D (k (D a)). check c. check rec D Prop.", "accepted 5; accepted 25; accepted 7; accepted 29");
         refused("data D (x: A): Type | c: #D a -> D x.", 7);
         same("data D (x: A): Type | c: D x -> D x.", "accepted 20");
         refused("data D (x: A): Type | c: all y: A, #D y -> D x.", 7);
