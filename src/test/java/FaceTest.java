@@ -34,14 +34,6 @@ public final class FaceTest {
         Bench.due("feed behind end", desk.feed(-1, -1, -1, -1, -1), 20);
         Bench.due("a high byte is no token", desk.end(1), 1);
         Bench.due("so it is unreadable", desk.verdict(0, 0), 3);
-        for (int i = 1; i <= 820; i++) {
-            Bench.due("feed " + i, desk.feed(0x20202020, 0x20202020, 0x20202020, 0x20202020, 0x20202020), 20 * i);
-        }
-        Bench.due("feed more than 16400", desk.feed(0, 0, 0, 0, 0), -1);
-        Bench.due("end(16401)", desk.end(16401), -1);
-        Bench.due("end(16385)", desk.end(16385), -1);
-        Bench.due("end(16384)", desk.end(16384), 0);
-        Bench.due("feed behind that", desk.feed(0, 0, 0, 0, 0), 20);
     }
 
     private static void end() {
