@@ -35,7 +35,7 @@ public final class ModelTest {
 
     public static void main(String[] args) throws InterruptedException {
         // The model calls itself for each part of a term, so it needs much stack.
-        Thread deep = new Thread(null, ModelTest::run, "deep", 1L << 29);
+        Thread deep = new Thread(null, ModelTest::run, "deep", 1L << 27);
         deep.setUncaughtExceptionHandler((thread, thrown) -> Bench.due("what was thrown", thrown.toString(), "nothing"));
         deep.start();
         deep.join();
