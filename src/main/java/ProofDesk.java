@@ -371,6 +371,7 @@ public final class ProofDesk {
         private int[] rows = new int[ROW * 32];
         private final int[] buckets = new int[BUCKETS];
         private int count;
+        private int serial;
 
         Names() {
             Arrays.fill(buckets, NONE);
@@ -471,12 +472,16 @@ public final class ProofDesk {
             rows[ROW * name + NUMBER] = number;
         }
 
-        int serialOf(int name) {
-            return rows[ROW * name + SERIAL];
+        void openDeclaration() {
+            serial++;
         }
 
-        void setSerial(int name, int serial) {
-            rows[ROW * name + SERIAL] = serial;
+        /** Declares a name: whether a global has it already, or it was declared before in this declaration. */
+        boolean declare(int name) {
+            int at = ROW * name;
+            boolean taken = rows[at + NUMBER] != NONE || rows[at + SERIAL] == serial;
+            rows[at + SERIAL] = serial;
+            return taken;
         }
     }
 
@@ -827,6 +832,37 @@ public final class ProofDesk {
             rows[ROW * binder + LEVEL] = level;
         }
 
+        /** How many all stand one behind the other. */
+        int countAll(int chain) {
+            int length = 0;
+            for (int end = chain; length < MANY && cells[end + KIND] == ALL; end = cells[end + SECOND]) {
+                length++;
+            }
+            return length;
+        }
+
+        /** What stands behind so many fun or all of a chain. */
+        int behind(int chain, int length) {
+            int end = chain;
+            for (int i = length; i > 0; i--) {
+                end = cells[end + SECOND];
+            }
+            return end;
+        }
+
+        int behindAll(int chain) {
+            return behind(chain, countAll(chain));
+        }
+
+        /** What is put to the arguments of an application. */
+        int headOf(int application) {
+            int head = application;
+            for (int left = MANY; left > 0 && cells[head + KIND] == APPLY; left--) {
+                head = cells[head + FIRST];
+            }
+            return head;
+        }
+
         boolean mentions(int root, int global) {
             stack.count = 0;
             stack.add(root);
@@ -897,7 +933,8 @@ public final class ProofDesk {
 
         void fillBlock() {
             // The copies of parts come behind what is looked at, so this goes on until all of them are copied.
-            for (int n = block; n < top; n += CELLS) {
+            int n = block;
+            for (int left = MOST_NODES; left > 0 && n < top; left--) {
                 if (hasParts(n)) {
                     int first = copyNode(cells[n + FIRST]);
                     int second = copyNode(cells[n + SECOND]);
@@ -908,6 +945,7 @@ public final class ProofDesk {
                     int told = copyNode(cells[n + TOLD]);
                     cells[n + TOLD] = told;
                 }
+                n += CELLS;
             }
         }
 
@@ -1125,7 +1163,7 @@ public final class ProofDesk {
             open.count = 0;
             reachFrom(g);
             // What is reached is added behind, each global once.
-            for (int i = 0; i < open.count && !reached[h]; i++) {
+            for (int i = 0; i < count && i < open.count && !reached[h]; i++) {
                 reachFrom(open.get(i, 0));
             }
             return reached[h];
@@ -1184,11 +1222,7 @@ public final class ProofDesk {
         }
 
         private int behindParameters(int g) {
-            int type = typeOf(g);
-            for (int i = get(g, PARAMETERS); i > 0; i--) {
-                type = terms.second(type);
-            }
-            return type;
+            return terms.behind(typeOf(g), get(g, PARAMETERS));
         }
 
         /** Lists so many fun or all of a chain: what stands behind them. */
@@ -1204,7 +1238,7 @@ public final class ProofDesk {
         /** The body behind the binders that were listed from mark on, which are listed no more. */
         private int wrapListed(int kind, int mark, int body) {
             int term = body;
-            while (list.count > mark) {
+            for (int left = list.count - mark; left > 0; left--) {
                 int binding = list.take();
                 term = terms.bind(kind, terms.ref(binding), terms.first(binding), term, 0);
             }
@@ -1230,7 +1264,7 @@ public final class ProofDesk {
                 node = terms.first(node);
             }
             int term = function;
-            while (list.count > mark) {
+            for (int left = list.count - mark; left > 0; left--) {
                 term = terms.apply(term, list.take());
             }
             return term;
@@ -1255,28 +1289,17 @@ public final class ProofDesk {
         }
 
         private boolean isRecursive(int argument, int family) {
-            int end = terms.first(argument);
-            while (terms.kind(end) == ALL) {
-                end = terms.second(end);
-            }
-            while (terms.kind(end) == APPLY) {
-                end = terms.first(end);
-            }
-            return terms.kind(end) == GLOBAL && terms.ref(end) == family;
+            int head = terms.headOf(terms.behindAll(terms.first(argument)));
+            return terms.kind(head) == GLOBAL && terms.ref(head) == family;
         }
 
         /** For an argument A of type all ys , D Ps Js: the head put to Js and (A ys), behind fun ys or all ys. */
         private int callFor(int head, int argument, int family, int kind) {
             int mark = list.count;
             int type = terms.first(argument);
-            int length = 0;
-            int made = type;
-            while (terms.kind(made) == ALL) {
-                made = terms.second(made);
-                length++;
-            }
+            int length = terms.countAll(type);
             int last = applyToBinders(terms.variable(terms.ref(argument), 0), type, length);
-            int call = terms.apply(applyToLast(head, made, get(family, PARTS)), last);
+            int call = terms.apply(applyToLast(head, terms.behind(type, length), get(family, PARTS)), last);
             listChain(type, length);
             return wrapListed(kind, mark, call);
         }
@@ -1355,7 +1378,6 @@ public final class ProofDesk {
         private int application;
         private int place;
         private int subject;
-        private int serial;
         // The declaration: its word and where that stands, its name, its groups as binder, type and what the name of
         // the binder meant before, its TERMs, and the names and TERMs of its constructors.
         private int word;
@@ -1386,7 +1408,7 @@ public final class ProofDesk {
             bound.count = 0;
             constructors.count = 0;
             depth = 1;
-            serial++;
+            names.openDeclaration();
             mode = READY;
             lexer.advance();
             word = lexer.token;
@@ -1481,10 +1503,9 @@ public final class ProofDesk {
             if (lexer.token != NAME) {
                 return fails();
             }
-            if (names.globalOf(lexer.name) != NONE || names.serialOf(lexer.name) == serial) {
+            if (names.declare(lexer.name)) {
                 ledger.refuse(NAME_TAKEN, lexer.start);
             }
-            names.setSerial(lexer.name, serial);
             mode = next;
             return true;
         }
@@ -2562,16 +2583,8 @@ public final class ProofDesk {
             typer.addLook(binder, declaration.bound.get(i, 1));
         }
 
-        private int behindAll(int term) {
-            int end = term;
-            while (terms.kind(end) == ALL) {
-                end = terms.second(end);
-            }
-            return end;
-        }
-
         private void needFamilyShape() {
-            if (terms.kind(behindAll(declaration.told)) != SORT) {
+            if (terms.kind(terms.behindAll(declaration.told)) != SORT) {
                 ledger.refuse(NO_FAMILY_SHAPE, terms.place(declaration.told));
             }
             typer.add(INDEX, declaration.told, NONE);
@@ -2610,7 +2623,7 @@ public final class ProofDesk {
                 return;
             }
             int term = declaration.constructors.get(i, 1);
-            if (!isFamilyApplied(behindAll(term), false)) {
+            if (!isFamilyApplied(terms.behindAll(term), false)) {
                 ledger.refuse(NO_CONSTRUCTOR_SHAPE, terms.place(term));
             }
             typer.add(ARGUMENT, term, i);
@@ -2678,7 +2691,7 @@ public final class ProofDesk {
             }
             boolean positive = true;
             int end = normal;
-            while (terms.kind(end) == ALL) {
+            for (int i = terms.countAll(normal); i > 0; i--) {
                 positive = positive && !terms.mentions(terms.first(end), family);
                 end = terms.second(end);
             }
